@@ -90,6 +90,11 @@ public final class BuildTest {
         }
         check.thrown("3 ninth", UNSUPPORTED, () -> x.section(0, 0, 0, 4));
         check.thrown("3 ninth, of no kind", ARGUMENT, () -> x.section(0, 4, 0, 4));
+        check.thrown("4 no ninth", ARGUMENT, () -> x.bytes(0, 8, 0, 1));
+        check.thrown("5 no ninth", ARGUMENT, () -> x.name(0, 1, 0, 8, 0));
+        check.due("5 in the eighth", 0, () -> x.name(0, 1, 0, 7, 0));
+        check.thrown("6 no ninth", ARGUMENT, () -> x.reference(0, 8, 0, 0, 0, 0));
+        check.thrown("11 no ninth", ARGUMENT, () -> x.placeOf(0, 8));
         check.due("3 another object's first", 0, () -> x.section(1, 0, 0, 4));
     }
 

@@ -18,6 +18,8 @@ public final class LinkTest {
         promise8Ways();
         promise8WayRanges();
         promise8LaterOverEarlier();
+        promise8NothingStaysOfTheLast();
+        promise8Twelve();
         promise9Doubled();
         promise9Missing();
         promise9Outside();
@@ -72,7 +74,10 @@ public final class LinkTest {
             check.due("7 choose", many, () -> x.choose(object));
             check.due("7 count(1)", many, () -> x.count(1));
         }
-        check.thrown("7 again", ARGUMENT, () -> x.choose(3));
+        for (int i = 0; i < 12; i++) {
+            int object = i;
+            check.thrown("7 again", ARGUMENT, () -> x.choose(object));
+        }
         check.thrown("7 -1", INDEX, () -> x.choose(-1));
         check.thrown("7 12", INDEX, () -> x.choose(12));
         check.thrown("7 far", INDEX, () -> x.choose(Integer.MIN_VALUE));
@@ -356,6 +361,47 @@ public final class LinkTest {
         for (int i = 9; i < 13; i++) {
             int at = i;
             check.due("8 the object keeps its own bytes", 0, () -> x.written(at));
+        }
+    }
+
+    private static void promise8NothingStaysOfTheLast() {
+        ObjectLinks x = plain(4, 4, 4);
+        x.name(0, 50, 2, 0, 3);
+        x.reference(0, 0, 0, 0, 1, 0);
+        x.name(1, 50, 2, 5, 40);
+        x.name(2, 50, 2, 0, 3);
+        chooseAll(x, 0, 1);
+        check.due("8 two commons", 72, () -> x.link(0, 0));
+        check.due("8 two commons, the gap", 28, () -> x.count(4));
+        chooseAll(x, 0);
+        check.due("8 one of them", 7, () -> x.link(0, 0));
+        check.due("8 one of them, no gap", 0, () -> x.count(4));
+        chooseAll(x, 2);
+        check.due("8 a common reached before, not now", 4, () -> x.link(2, 0));
+        check.due("8 a common reached before, not now", 0, () -> x.count(5));
+        check.due("8 a common reached before, not now", -1, () -> x.nameAt(50));
+        chooseAll(x, 0, 1);
+        x.link(0, 0);
+        chooseAll(x, 0, 1);
+        check.thrown("8 a fault", UNSUPPORTED, () -> x.link(2, 0));
+        for (int what = 2; what <= 5; what++) {
+            int asked = what;
+            check.due("17 count(" + what + ") behind a fault", 0, () -> x.count(asked));
+        }
+    }
+
+    private static void promise8Twelve() {
+        int[] lengths = new int[12];
+        java.util.Arrays.fill(lengths, 4);
+        ObjectLinks x = plain(lengths);
+        for (int i = 0; i < 12; i++) {
+            x.name(i, (i + 1) % 12, 3, 0, 0);
+            x.reference(i, 0, 0, 0, 1, 0);
+            x.choose(i);
+        }
+        check.due("8 twelve objects in a ring", 48, () -> x.link(7, 0));
+        for (int i = 0; i < 12; i++) {
+            imageIs("8 twelve objects in a ring", x, 4 * i, 0, 0, 0, 4 * ((i + 1) % 12));
         }
     }
 

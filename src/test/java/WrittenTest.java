@@ -111,6 +111,11 @@ public final class WrittenTest {
             body[i] = x.written(i);
         }
         writtenIs("13 longest, its sum", x, withSum(body));
+        check.thrown("16 longest and a byte more", ARGUMENT, () -> x.read(-1));
+        check.thrown("16 all cut", ARGUMENT, () -> x.read(many));
+        check.thrown("16 more than all cut", ARGUMENT, () -> x.read(many + 1));
+        check.thrown("14 behind the longest", INDEX, () -> x.written(many));
+        check.thrown("15 behind the longest", INDEX, () -> x.alter(many, 0));
         check.due("16 longest", 1, () -> x.read(0));
         check.due("16 longest again", many, () -> x.write(1));
         writtenIs("16 longest again", x, withSum(body));
