@@ -51,7 +51,7 @@ public final class ObjectLinks {
 
     public ObjectLinks() {
         units = new Unit[MOST_OBJECTS];
-        linker = new Linker(units);
+        linker = new Linker();
         octets = new Octets();
     }
 
@@ -111,11 +111,11 @@ public final class ObjectLinks {
     }
 
     public int choose(int object) throws IndexOutOfBoundsException, IllegalArgumentException {
-        known(object);
+        Unit unit = known(object);
         if (linker.isChosen(object)) {
             throw new IllegalArgumentException("the object is chosen already");
         }
-        return linker.takeBehind(object);
+        return linker.takeBehind(object, unit);
     }
 
     public int link(int entry, int base)
@@ -677,7 +677,8 @@ public final class ObjectLinks {
 
     /** What is chosen, and what the latest linking made of what was chosen then. */
     private static final class Linker {
-        private final Unit[] units;
+        /** By object; only those that are or were chosen. */
+        private final Unit[] units = new Unit[MOST_OBJECTS];
         private final int[] order = new int[MOST_OBJECTS];
         int chosen;
 
@@ -700,10 +701,6 @@ public final class ObjectLinks {
         int faultObject = NONE;
         int faultNumber = NONE;
 
-        Linker(Unit[] units) {
-            this.units = units;
-        }
-
         boolean isChosen(int object) {
             for (int i = 0; i < chosen; i++) {
                 if (order[i] == object) {
@@ -714,7 +711,8 @@ public final class ObjectLinks {
         }
 
         /** The caller has seen that the object is not chosen yet, so there is room. */
-        int takeBehind(int object) {
+        int takeBehind(int object, Unit unit) {
+            units[object] = unit;
             order[chosen] = object;
             chosen++;
             return chosen;
