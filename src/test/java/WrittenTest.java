@@ -192,8 +192,27 @@ public final class WrittenTest {
         }
         check.argument(() -> y.read(many - 6), () -> y.read(many - 8));
         check.due(1, () -> y.read(many - 7));
+        for (int more : new int[] {1, 8, 100}) {
+            cutOfLessThanNothing(more);
+        }
         check.changesNothing(Scenes::lively,
                 z -> check.argument(() -> z.read(-1), () -> z.read(z.count(6) + 1)), Scenes.LIVELY_NAMES);
+    }
+
+    /** Bytes of a longer one that was written before would make an object, but they are no part of the last one. */
+    private static void cutOfLessThanNothing(int more) {
+        Subject x = Scenes.objects(2);
+        x.section(0, 0, 0, more);
+        x.section(1, 0, 0, 0);
+        int[] longer = Packed.withSum(Packed.joined(Packed.row(79, 66, 1, 0, 0, 0, 0, 0, more), new int[more]));
+        x.write(0);
+        check.written(x, 0, longer);
+        int many = x.write(1);
+        for (int i = 0; i < many; i++) {
+            x.alter(i, longer[i]);
+        }
+        check.argument(() -> x.read(-more), () -> x.read(0), () -> x.read(-2000), () -> x.read(many + 1));
+        check.due(2, () -> x.count(0));
     }
 
     private static void nothingWrittenYet() {
