@@ -1,3 +1,5 @@
+import java.util.Arrays;
+
 /** What 'Terms' says of an object AS BYTES, sentence by sentence, in writing and in reading. */
 public final class AsBytesTest {
     private static final int LONGEST = 5 + 8 * (4 + 128) + 12 * 8 + 16 * 9 + 2;
@@ -195,7 +197,7 @@ public final class AsBytesTest {
             check.due(1, () -> x.read(0));
             check.counts(x, 7, 8, 12, 16);
             check.due(LONGEST, () -> x.write(1));
-            check.written(x, from, java.util.Arrays.copyOfRange(want, from, Math.min(from + 400, LONGEST)));
+            check.written(x, from, Arrays.copyOfRange(want, from, Math.min(from + 400, LONGEST)));
         }
     }
 }
