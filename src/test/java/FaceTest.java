@@ -6,69 +6,88 @@ import java.util.Arrays;
 import java.util.HashSet;
 import java.util.Set;
 import java.util.TreeSet;
+import java.util.stream.Collectors;
 
 /** The face of the document, and what can be seen of LANGUAGE.md from the compiled classes. */
 public final class FaceTest {
-    private static final String INDEX = "IndexOutOfBoundsException";
-    private static final String ARGUMENT = "IllegalArgumentException";
-    private static final String STATE = "IllegalStateException";
-    private static final String UNSUPPORTED = "UnsupportedOperationException";
+    private static final String[] METHODS = {
+        "public int object() throws UnsupportedOperationException",
+        "public int section(int object, int kind, int power, int length)"
+                + " throws IndexOutOfBoundsException, IllegalArgumentException, UnsupportedOperationException",
+        "public int bytes(int object, int section, int at, int v)"
+                + " throws IndexOutOfBoundsException, IllegalArgumentException",
+        "public int name(int object, int number, int sort, int section, int place)"
+                + " throws IndexOutOfBoundsException, IllegalArgumentException, UnsupportedOperationException",
+        "public int reference(int object, int section, int place, int way, int name, int addend)"
+                + " throws IndexOutOfBoundsException, IllegalArgumentException, UnsupportedOperationException",
+        "public int choose(int object) throws IndexOutOfBoundsException, IllegalArgumentException",
+        "public int link(int entry, int base)"
+                + " throws IllegalArgumentException, IllegalStateException, UnsupportedOperationException",
+        "public int fault(int what) throws IndexOutOfBoundsException",
+        "public int image(int i) throws IndexOutOfBoundsException",
+        "public int placeOf(int object, int section) throws IndexOutOfBoundsException, IllegalArgumentException",
+        "public int nameAt(int number)",
+        "public int write(int object) throws IndexOutOfBoundsException",
+        "public int written(int i) throws IndexOutOfBoundsException",
+        "public int alter(int i, int v) throws IndexOutOfBoundsException, IllegalArgumentException",
+        "public int read(int cut) throws IllegalArgumentException, UnsupportedOperationException",
+        "public int count(int what)"
+    };
 
     private static final Check check = new Check("FaceTest");
 
     public static void main(String[] args) {
-        check.sentence("The public face", "public final class ObjectLinks {");
         Class<?> face = ObjectLinks.class;
+        fields(face);
+        constructors(face);
+        methods(face);
+        check.sentence("The public face", "public final class ObjectLinks {");
         check.holds("public and final", Modifier.isPublic(face.getModifiers()) && Modifier.isFinal(face.getModifiers()));
         check.holds("no package", face.getPackageName().isEmpty());
-        methods(face);
-        constructors(face);
-        fields(face);
         classesInside(face);
         check.end();
     }
 
     private static void methods(Class<?> face) {
-        Set<String> want = new TreeSet<>(Arrays.asList(
-                "object 0 " + UNSUPPORTED,
-                "section 4 " + INDEX + " " + ARGUMENT + " " + UNSUPPORTED,
-                "bytes 4 " + INDEX + " " + ARGUMENT,
-                "name 5 " + INDEX + " " + ARGUMENT + " " + UNSUPPORTED,
-                "reference 6 " + INDEX + " " + ARGUMENT + " " + UNSUPPORTED,
-                "choose 1 " + INDEX + " " + ARGUMENT,
-                "link 2 " + ARGUMENT + " " + STATE + " " + UNSUPPORTED,
-                "fault 1 " + INDEX,
-                "image 1 " + INDEX,
-                "placeOf 2 " + INDEX + " " + ARGUMENT,
-                "nameAt 1",
-                "write 1 " + INDEX,
-                "written 1 " + INDEX,
-                "alter 2 " + INDEX + " " + ARGUMENT,
-                "read 1 " + ARGUMENT + " " + UNSUPPORTED,
-                "count 1"));
         Set<String> got = new TreeSet<>();
         for (Method method : face.getDeclaredMethods()) {
             if (!Modifier.isPrivate(method.getModifiers())) {
-                StringBuilder told = new StringBuilder(method.getName() + " " + method.getParameterCount());
-                for (Class<?> thrown : method.getExceptionTypes()) {
-                    told.append(' ').append(thrown.getSimpleName());
-                }
-                got.add(told.toString());
-                check.holds(method + " is public and no more", method.getModifiers() == Modifier.PUBLIC);
-                check.holds(method + " is of ints", method.getReturnType() == int.class
-                        && Arrays.stream(method.getParameterTypes()).allMatch(type -> type == int.class));
+                got.add(declared(method));
             }
         }
-        check.say("methods", want.toString(), got.toString());
+        for (String line : METHODS) {
+            check.sentence("The public face", line + ";");
+            check.holds("it is declared so", got.remove(withoutNames(line)));
+        }
+        check.say("other methods", "[]", got.toString());
+    }
+
+    private static String declared(Method method) {
+        String types = joined(method.getParameterTypes());
+        String thrown = joined(method.getExceptionTypes());
+        return Modifier.toString(method.getModifiers()) + " " + method.getReturnType() + " " + method.getName()
+                + "(" + types + ")" + (thrown.isEmpty() ? "" : " throws " + thrown);
+    }
+
+    private static String joined(Class<?>[] types) {
+        return Arrays.stream(types).map(Class::getSimpleName).collect(Collectors.joining(", "));
+    }
+
+    /** The compiled class knows only the types of what its methods take. */
+    private static String withoutNames(String line) {
+        return line.replaceAll("int \\w+(?=[,)])", "int");
     }
 
     private static void constructors(Class<?> face) {
+        check.sentence("The public face", "public ObjectLinks();");
         Constructor<?>[] all = face.getDeclaredConstructors();
         check.holds("one constructor", all.length == 1 && all[0].getParameterCount() == 0
                 && Modifier.isPublic(all[0].getModifiers()));
     }
 
     private static void fields(Class<?> face) {
+        check.sentence("The public face", "public static final int NONE = -1;");
+        check.holds("NONE is -1", ObjectLinks.NONE == -1);
         for (Field field : face.getDeclaredFields()) {
             int modifiers = field.getModifiers();
             boolean isNone = field.getName().equals("NONE") && field.getType() == int.class
